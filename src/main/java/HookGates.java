@@ -3,8 +3,8 @@ import java.util.NoSuchElementException;
 /**
  * A land of gates with hooks, told as a text; who owns what by how hooks hang, and what follows.
  *
- * A WAY (how hooks hang at all gates) is one number, two bits a gate: see Ways. NOW is a way, a SEED
- * and a year: see Moment. Everything else is reckoned from the LAND and a way.
+ * A WAY (how hooks hang at all gates) is one number, two bits a gate: see Ways. NOW is a way, a
+ * SEED and a year: see Moment. Everything else is reckoned from the LAND and a way.
  */
 public final class HookGates {
     public static final int NONE = -1;
@@ -29,6 +29,7 @@ public final class HookGates {
     private static final int MOST_MUCH = 599;
     private static final int MOST_MOVES_ASKED = 20;
     private static final int MOST_THEFT = 20;
+    private static final int THEFT_PAIRS = 4;
     private static final int MOST_CHANCE_YEARS = 4;
     private static final int MOST_DRAWN_YEARS = 60;
     private static final int MOST_YEARS = 999;
@@ -53,18 +54,16 @@ public final class HookGates {
     private static final int SORTS_OF_MOVES = 4;
 
     private final Tape tape = new Tape();
-    private final Reader reader = new Reader();
+    private final Reader reader = new Reader(tape);
     private final Moment now = new Moment();
+    private final Moment dreamt = new Moment();
     private final Shelf past = new Shelf(MOST_ACTS);
     private final Shelf images = new Shelf(MOST_IMAGES);
     private final Errands errands = new Errands();
     private final Survey survey = new Survey();
     private final Fits lostWays = new Fits();
     private final Ratio ratio = new Ratio();
-    private final Gale gale = new Gale();
-    // Two of them, since a text with a FAULT must leave the LAND alone: the spare one is read into.
     private Land country = new Land();
-    private Land spare = new Land();
     private int latestTrouble;
     private int latestFault;
     private int faultPlace;
@@ -93,7 +92,7 @@ public final class HookGates {
         if (n < 0 || n > tape.length) {
             return refused(BAD_NUMBER);
         }
-        boolean whole = reader.readText(tape, n, spare);
+        boolean whole = reader.readText(n);
         tape.length = 0;
         latestFault = reader.fault;
         faultPlace = reader.faultPlace;
@@ -105,9 +104,7 @@ public final class HookGates {
     }
 
     private void settle() {
-        Land told = spare;
-        spare = country;
-        country = told;
+        country = reader.handOver(country);
         now.set(country.toldWay, 0, 0);
         past.count = 0;
         images.count = 0;
@@ -131,12 +128,12 @@ public final class HookGates {
             return refused(NO_SUCH);
         }
         switch (what) {
-            case 0: return answered(Rows.at(country.kinds, g));
-            case 1: return answered(Rows.at(country.firmOf, g));
-            case 2: return answered(Rows.at(country.worths, g));
+            case 0: return answered(at(country.kinds, g));
+            case 1: return answered(at(country.firmOf, g));
+            case 2: return answered(at(country.worths, g));
             case 3: return answered(Ways.hungAt(now.way, g));
             case 4: return answered(country.ownersIn(now.way, g));
-            case 5: return answered(Rows.at(country.near, g));
+            case 5: return answered(at(country.near, g));
             default: return refused(NO_SUCH);
         }
     }
@@ -159,8 +156,8 @@ public final class HookGates {
             return refused(NO_SUCH);
         }
         switch (what) {
-            case 0: return answered(Rows.at(country.heads, f));
-            case 1: return answered(Rows.at(country.staffs, f));
+            case 0: return answered(at(country.heads, f));
+            case 1: return answered(at(country.staffs, f));
             case 2: return answered(country.wealthOfFirm(f, now.way));
             default: return refused(NO_SUCH);
         }
@@ -207,7 +204,7 @@ public final class HookGates {
         if (!hasLand()) {
             return refused(NO_SUCH);
         }
-        explore();
+        errands.explore(country, now.way);
         int goal = errands.firstMeetingWants(country);
         return answered(goal == NONE ? CANNOT_BE : errands.movesTo(goal));
     }
@@ -216,7 +213,7 @@ public final class HookGates {
         if (!hasLand()) {
             return refused(NO_SUCH);
         }
-        explore();
+        errands.explore(country, now.way);
         int goal = errands.firstMeetingWants(country);
         if (goal == NONE || i < 0 || i >= errands.movesTo(goal)) {
             return refused(NO_SUCH);
@@ -225,7 +222,7 @@ public final class HookGates {
     }
 
     public int met() {
-        return hasLand() ? answered(country.wantsMet(now.way)) : refused(NO_SUCH);
+        return hasLand() ? answered(country.claims.wantsMet(country, now.way)) : refused(NO_SUCH);
     }
 
     public int movesFor(int p, int much) {
@@ -235,7 +232,7 @@ public final class HookGates {
         if (!isMuch(much)) {
             return refused(BAD_NUMBER);
         }
-        explore();
+        errands.explore(country, now.way);
         int goal = errands.firstWithWealth(country, p, much);
         return answered(goal == NONE ? CANNOT_BE : errands.movesTo(goal));
     }
@@ -247,7 +244,7 @@ public final class HookGates {
         if (moves < 0 || moves > MOST_MOVES_ASKED) {
             return refused(BAD_NUMBER);
         }
-        explore();
+        errands.explore(country, now.way);
         return answered(errands.mostWealthWithin(country, p, moves));
     }
 
@@ -255,12 +252,8 @@ public final class HookGates {
         if (!hasLand()) {
             return refused(NO_SUCH);
         }
-        explore();
-        return answered(errands.count);
-    }
-
-    private void explore() {
         errands.explore(country, now.way);
+        return answered(errands.count);
     }
 
     // ---- covers, still ones
@@ -330,7 +323,7 @@ public final class HookGates {
         if (i < 0 || i >= lostWays.count) {
             return refused(NO_SUCH);
         }
-        return answered(Ways.hungAt(Rows.at(lostWays.found, i), k));
+        return answered(Ways.hungAt(at(lostWays.found, i), k));
     }
 
     public int hungBy(int k, int hung) {
@@ -362,7 +355,10 @@ public final class HookGates {
     }
 
     public int judge() {
-        return hasLand() ? answered(country.firstBelied(country.toldWay)) : refused(NO_SUCH);
+        if (!hasLand()) {
+            return refused(NO_SUCH);
+        }
+        return answered(country.claims.firstBelied(country, country.toldWay));
     }
 
     // ---- paths, sentries
@@ -371,22 +367,22 @@ public final class HookGates {
         if (!isGate(g) || !isGate(other)) {
             return refused(NO_SUCH);
         }
-        return answered(Roads.fewestPaths(country, g, other));
+        return answered(country.fewestPaths(g, other));
     }
 
     public int sentries() {
-        return hasLand() ? answered(Roads.fewestSentries(country)) : refused(NO_SUCH);
+        return hasLand() ? answered(country.fewestSentries()) : refused(NO_SUCH);
     }
 
     public int parts() {
-        return hasLand() ? answered(Roads.countParts(country)) : refused(NO_SUCH);
+        return hasLand() ? answered(country.countParts()) : refused(NO_SUCH);
     }
 
     public int estate(int p, int g) {
         if (!isPerson(p) || !isGate(g)) {
             return refused(NO_SUCH);
         }
-        int together = Roads.together(country, g, country.gatesOwned(p, now.way));
+        int together = country.together(g, country.gatesOwned(p, now.way));
         return answered(country.wealthAt(p, now.way, together));
     }
 
@@ -396,12 +392,12 @@ public final class HookGates {
         if (!isPerson(p)) {
             return refused(NO_SUCH);
         }
-        Votes.reckonPower(country, now.way, p, ratio);
+        ratio.setPower(country, now.way, p);
         return told(lower);
     }
 
     public int rule() {
-        return hasLand() ? answered(Votes.fewestRulers(country, now.way)) : refused(NO_SUCH);
+        return hasLand() ? answered(country.fewestRulers(now.way)) : refused(NO_SUCH);
     }
 
     // ---- a thief, a sentry
@@ -410,23 +406,60 @@ public final class HookGates {
         if (!mayPlay(worth)) {
             return NO_PAY;
         }
-        return answered(Theft.pay(worth, steals, watches, ofSentry));
+        return answered(payOf(worth, steals, watches, ofSentry));
     }
 
     public int rests(int worth) {
-        return mayPlay(worth) ? answered(Theft.countRests(worth)) : NONE;
+        return mayPlay(worth) ? answered(countRests(worth)) : NONE;
     }
 
     public int rest(int worth) {
-        return mayPlay(worth) ? answered(Theft.firstRest(worth)) : NONE;
+        return mayPlay(worth) ? answered(firstRest(worth)) : NONE;
     }
 
-    /** Tells the TROUBLE too, since of one and the same TROUBLE three calls answer differently. */
+    /** Tells the TROUBLE itself, since the calls answer a refusal differently. */
     private boolean mayPlay(int worth) {
         if (!hasLand()) {
             return denied(NO_SUCH);
         }
         return worth >= 0 && worth <= MOST_THEFT || denied(BAD_NUMBER);
+    }
+
+    private static int payOf(int worth, boolean steals, boolean watches, boolean ofSentry) {
+        if (!steals) {
+            return watches && ofSentry ? -1 : 0;
+        }
+        if (watches) {
+            return ofSentry ? 2 : -3;
+        }
+        return ofSentry ? -worth : worth;
+    }
+
+    private static int countRests(int worth) {
+        int found = 0;
+        for (int pair = 0; pair < THEFT_PAIRS; pair++) {
+            if (isRestPair(worth, pair)) {
+                found++;
+            }
+        }
+        return found;
+    }
+
+    private static int firstRest(int worth) {
+        for (int pair = 0; pair < THEFT_PAIRS; pair++) {
+            if (isRestPair(worth, pair)) {
+                return 10 * (pair >> 1) + (pair & 1);
+            }
+        }
+        return CANNOT_BE;
+    }
+
+    /** A pair is 2 if the one steals, and 1 if the other one watches. */
+    private static boolean isRestPair(int worth, int pair) {
+        boolean steals = pair >= 2;
+        boolean watches = (pair & 1) == 1;
+        return payOf(worth, !steals, watches, false) <= payOf(worth, steals, watches, false)
+                && payOf(worth, steals, !watches, true) <= payOf(worth, steals, watches, true);
     }
 
     // ---- gusts
@@ -438,7 +471,7 @@ public final class HookGates {
         if (n < 0 || n > MOST_CHANCE_YEARS) {
             return refused(BAD_NUMBER);
         }
-        Chance.reckonHolding(country.fallingIn(now.way, g), n, ratio);
+        ratio.setHolding(country.fallingIn(now.way, g), n);
         return told(lower);
     }
 
@@ -446,7 +479,7 @@ public final class HookGates {
         if (!isPerson(p)) {
             return refused(NO_SUCH);
         }
-        Chance.reckonMean(country, now.way, p, ratio);
+        ratio.setMean(country, now.way, p);
         return told(lower);
     }
 
@@ -457,7 +490,7 @@ public final class HookGates {
         if (!isMuch(much)) {
             return refused(BAD_NUMBER);
         }
-        Chance.reckonKeeping(country, now.way, p, much, ratio);
+        ratio.setKeeping(country, now.way, p, much);
         return told(lower);
     }
 
@@ -468,11 +501,11 @@ public final class HookGates {
         if (!isSeed(seed) || !isDrawnYears(n)) {
             return refused(BAD_NUMBER);
         }
-        gale.begin(now.way, seed);
+        dreamt.set(now.way, seed, 0);
         for (int year = 0; year < n; year++) {
-            gale.blow(country);
+            dreamt.blow(country);
         }
-        return answered(country.wealth(p, gale.way));
+        return answered(country.wealth(p, dreamt.way));
     }
 
     public int bare(int seed, int n) {
@@ -482,12 +515,12 @@ public final class HookGates {
         if (!isSeed(seed) || !isDrawnYears(n)) {
             return refused(BAD_NUMBER);
         }
-        gale.begin(now.way, seed);
+        dreamt.set(now.way, seed, 0);
         for (int year = 0; year <= n; year++) {
-            if ((gale.way & ~country.guardedBits) == 0) {
+            if ((dreamt.way & ~country.guardedBits) == 0) {
                 return answered(year);
             }
-            gale.blow(country);
+            dreamt.blow(country);
         }
         return answered(CANNOT_BE);
     }
@@ -539,10 +572,7 @@ public final class HookGates {
             return refused(NO_ROOM);
         }
         past.addLatest(now);
-        gale.begin(now.way, now.seed);
-        gale.blow(country);
-        now.set(gale.way, gale.seed, now.year + 1);
-        return answered(gale.fallen);
+        return answered(now.blow(country));
     }
 
     public boolean seed(int v) {
@@ -677,21 +707,19 @@ public final class HookGates {
         return n >= 0 && n <= MOST_DRAWN_YEARS;
     }
 
-    /** Rows of numbers, looked at and written only within their bounds. */
-    private static final class Rows {
-        static int at(int[] row, int i) {
-            return i >= 0 && i < row.length ? row[i] : 0;
-        }
+    // Rows are looked at and written only within their bounds, by these two or by a loop over them.
+    private static int at(int[] row, int i) {
+        return i >= 0 && i < row.length ? row[i] : 0;
+    }
 
-        static void put(int[] row, int i, int value) {
-            if (i >= 0 && i < row.length) {
-                row[i] = value;
-            }
+    private static void put(int[] row, int i, int value) {
+        if (i >= 0 && i < row.length) {
+            row[i] = value;
         }
+    }
 
-        static boolean hasBit(int bits, int i) {
-            return (bits >> i & 1) == 1;
-        }
+    private static boolean hasBit(int bits, int i) {
+        return (bits >> i & 1) == 1;
     }
 
     /**
@@ -703,40 +731,57 @@ public final class HookGates {
         private static final int LOWER_BITS = 0x555;
 
         static int hungAt(int way, int g) {
-            return way >> shiftOf(g) & 3;
+            return way >> 2 * (MOST_GATES - 1 - g) & 3;
         }
 
         static int with(int way, int g, int hung) {
-            return way & ~bitsOf(g) | hung << shiftOf(g);
+            return way & ~bitsOf(g) | hung << 2 * (MOST_GATES - 1 - g);
         }
 
         static int bitsOf(int g) {
-            return 3 << shiftOf(g);
+            return 3 << 2 * (MOST_GATES - 1 - g);
         }
 
         static int hooksIn(int way) {
             return Integer.bitCount(way);
         }
 
+        /** How many numbers the bits of the first n gates make, ways or not. */
+        static int codesOf(int n) {
+            return 1 << 2 * n;
+        }
+
+        /** The way whose first n gates make such a number, with no hooks behind them. */
+        static int fromCode(int code, int n) {
+            return code << 2 * (MOST_GATES - n);
+        }
+
         /** No gate has both bits. */
         static boolean isWay(int way) {
             return (way & way >> 1 & LOWER_BITS) == 0;
         }
-
-        /** The step from way to way that leaves alone all places behind the first n. */
-        static int stepFor(int n) {
-            return n >= 0 && n < MOST_GATES ? 1 << 2 * (MOST_GATES - n) : 1;
-        }
-
-        private static int shiftOf(int g) {
-            return 2 * (MOST_GATES - 1 - g);
-        }
     }
 
-    /** THE TAPE. */
+    /** THE TAPE, and its TOKENS from the left. */
     private static final class Tape {
-        final byte[] bytes = new byte[TAPE_BYTES];
+        static final int END = 0;
+        static final int WORD = 1;
+        static final int WHOLE = 2;
+        static final int SEMICOLON = 3;
+        static final int COMMA = 4;
+        static final int UNFIT = 5;
+
+        private static final int LONGEST_WORD = 8;
+        private static final int LONGEST_WHOLE = 3;
+
+        private final byte[] bytes = new byte[TAPE_BYTES];
         int length;
+        private int end;
+        private int next;
+        int sort;
+        int place;
+        long word;
+        int value;
 
         boolean hasRoomForFive() {
             return length + 20 <= TAPE_BYTES;
@@ -750,9 +795,79 @@ public final class HookGates {
                 }
             }
         }
+
+        void startReading(int n) {
+            end = n;
+            next = 0;
+            advance();
+        }
+
+        void advance() {
+            while (next < end && byteAt(next) == ' ') {
+                next++;
+            }
+            place = next;
+            int sign = byteAt(place);
+            if (place >= end) {
+                sort = END;
+            } else if (isLetter(sign)) {
+                scanWord();
+            } else if (isDigit(sign)) {
+                scanWhole();
+            } else {
+                sort = sign == ';' ? SEMICOLON : sign == ',' ? COMMA : UNFIT;
+                next++;
+            }
+        }
+
+        /**
+         * A WORD is kept as a number, five bits a letter, none of them 0, so that unlike ones are
+         * unlike. A run of more letters is no WORD, so its first byte begins no TOKEN.
+         */
+        private void scanWord() {
+            word = 0;
+            while (next < end && isLetter(byteAt(next))) {
+                word = word << 5 | byteAt(next) - 'a' + 1;
+                next++;
+            }
+            sort = next - place <= LONGEST_WORD ? WORD : UNFIT;
+        }
+
+        private void scanWhole() {
+            value = 0;
+            while (next < end && isDigit(byteAt(next))) {
+                value = 10 * value + byteAt(next) - '0';
+                next++;
+            }
+            sort = next - place <= LONGEST_WHOLE ? WHOLE : UNFIT;
+        }
+
+        boolean spells(String text) {
+            if (sort != WORD || next - place != text.length()) {
+                return false;
+            }
+            for (int i = 0; i < text.length(); i++) {
+                if (byteAt(place + i) != text.charAt(i)) {
+                    return false;
+                }
+            }
+            return true;
+        }
+
+        private int byteAt(int i) {
+            return i >= 0 && i < bytes.length ? bytes[i] : 0;
+        }
+
+        private static boolean isLetter(int sign) {
+            return sign >= 'a' && sign <= 'z';
+        }
+
+        private static boolean isDigit(int sign) {
+            return sign >= '0' && sign <= '9';
+        }
     }
 
-    /** NOW, as far as ACTS change it; hooks on the ground follow from the way. */
+    /** NOW, or what it would become; hooks on the ground follow from the way. */
     private static final class Moment {
         int way;
         int seed;
@@ -762,6 +877,22 @@ public final class HookGates {
             way = newWay;
             seed = newSeed;
             year = newYear;
+        }
+
+        /** A year of GUSTS by SEED: how many fall. Even a hook that never falls takes its DRAW. */
+        int blow(Land land) {
+            int fallen = 0;
+            for (int g = 0; g < land.gates; g++) {
+                if (!land.isGuarded(g) && Ways.hungAt(way, g) != UNHUNG) {
+                    seed = (75 * seed + 74) % SEED_MODULUS;
+                    if (seed % 100 < land.fallingIn(way, g)) {
+                        way = Ways.with(way, g, UNHUNG);
+                        fallen++;
+                    }
+                }
+            }
+            year++;
+            return fallen;
         }
     }
 
@@ -781,14 +912,14 @@ public final class HookGates {
             if (count >= room) {
                 dropFirst();
             }
-            Rows.put(ways, count, moment.way);
-            Rows.put(seeds, count, moment.seed);
-            Rows.put(years, count, moment.year);
+            put(ways, count, moment.way);
+            put(seeds, count, moment.seed);
+            put(years, count, moment.year);
             count++;
         }
 
         void bringBack(int i, Moment moment) {
-            moment.set(Rows.at(ways, i), Rows.at(seeds, i), Rows.at(years, i));
+            moment.set(at(ways, i), at(seeds, i), at(years, i));
         }
 
         private void dropFirst() {
@@ -822,15 +953,15 @@ public final class HookGates {
         }
 
         void addWant(int p, int g, int alone) {
-            Rows.put(wantPeople, wants, p);
-            Rows.put(wantGates, wants, g);
-            Rows.put(wantAlone, wants, alone);
+            put(wantPeople, wants, p);
+            put(wantGates, wants, g);
+            put(wantAlone, wants, alone);
             wants++;
         }
 
         boolean isLostGate(int g) {
             for (int k = 0; k < lost; k++) {
-                if (Rows.at(lostGates, k) == g) {
+                if (at(lostGates, k) == g) {
                     return true;
                 }
             }
@@ -838,13 +969,36 @@ public final class HookGates {
         }
 
         void addLost(int g) {
-            Rows.put(lostGates, lost, g);
+            put(lostGates, lost, g);
             lost++;
         }
 
         void addHad(int p, int much) {
-            Rows.put(had, p, much);
+            put(had, p, much);
             hads++;
+        }
+
+        int wantsMet(Land land, int way) {
+            int bits = 0;
+            for (int i = 0; i < wants; i++) {
+                int who = land.ownersIn(way, at(wantGates, i));
+                int p = at(wantPeople, i);
+                if (at(wantAlone, i) == 1 ? who == 1 << p : hasBit(who, p)) {
+                    bits |= 1 << i;
+                }
+            }
+            return bits;
+        }
+
+        /** The first who had something that he HASn't by a way. */
+        int firstBelied(Land land, int way) {
+            for (int p = 0; p < land.people; p++) {
+                int much = at(had, p);
+                if (much != NONE && much != land.wealth(p, way)) {
+                    return p;
+                }
+            }
+            return CANNOT_BE;
         }
     }
 
@@ -878,9 +1032,6 @@ public final class HookGates {
             paths = 0;
             toldWay = 0;
             guardedBits = 0;
-            for (int f = 0; f < MOST_FIRMS; f++) {
-                staffs[f] = 0;
-            }
             for (int g = 0; g < MOST_GATES; g++) {
                 near[g] = 0;
             }
@@ -889,9 +1040,9 @@ public final class HookGates {
 
         void addGate(int kind, int f, int worth, int hung) {
             int g = gates;
-            Rows.put(kinds, g, kind);
-            Rows.put(firmOf, g, f);
-            Rows.put(worths, g, worth);
+            put(kinds, g, kind);
+            put(firmOf, g, f);
+            put(worths, g, worth);
             toldWay = Ways.with(toldWay, g, hung);
             if (kind == GUARDED) {
                 guardedBits |= Ways.bitsOf(g);
@@ -903,37 +1054,38 @@ public final class HookGates {
         }
 
         private void reckonOwners(int g, int hung) {
-            int f = Rows.at(firmOf, g);
+            int f = at(firmOf, g);
             // An odd gate is owned as a plain one whose hook hangs one step further round.
-            int role = Rows.at(kinds, g) == ODD ? (hung + 1) % 3 : hung;
+            int role = at(kinds, g) == ODD ? (hung + 1) % 3 : hung;
             int who = 0;
             if (role == AHEAD) {
-                who = 1 << Rows.at(heads, f);
+                who = 1 << at(heads, f);
             } else if (role == BEHIND) {
-                who = Rows.at(staffs, f);
+                who = at(staffs, f);
             }
             int k = Integer.bitCount(who);
-            Rows.put(owners, 4 * g + hung, who);
-            Rows.put(portions, 4 * g + hung, k > 0 ? Rows.at(worths, g) / k : 0);
+            put(owners, 4 * g + hung, who);
+            put(portions, 4 * g + hung, k > 0 ? at(worths, g) / k : 0);
         }
 
         void addPath(int g, int other) {
-            Rows.put(near, g, Rows.at(near, g) | 1 << other);
-            Rows.put(near, other, Rows.at(near, other) | 1 << g);
+            put(near, g, at(near, g) | 1 << other);
+            put(near, other, at(near, other) | 1 << g);
             paths++;
         }
 
         int ownersIn(int way, int g) {
-            return Rows.at(owners, 4 * g + Ways.hungAt(way, g));
+            return at(owners, 4 * g + Ways.hungAt(way, g));
         }
 
         /** What each owner of a gate has of it. */
         int portionIn(int way, int g) {
-            return Rows.at(portions, 4 * g + Ways.hungAt(way, g));
+            return at(portions, 4 * g + Ways.hungAt(way, g));
         }
 
         int shareIn(int way, int g, int p) {
-            return Rows.hasBit(ownersIn(way, g), p) ? portionIn(way, g) : 0;
+            int i = 4 * g + Ways.hungAt(way, g);
+            return hasBit(at(owners, i), p) ? at(portions, i) : 0;
         }
 
         int wealth(int p, int way) {
@@ -944,10 +1096,20 @@ public final class HookGates {
             return sum;
         }
 
+        int wealthOfSet(int peopleBits, int way) {
+            int sum = 0;
+            for (int p = 0; p < people; p++) {
+                if (hasBit(peopleBits, p)) {
+                    sum += wealth(p, way);
+                }
+            }
+            return sum;
+        }
+
         int wealthAt(int p, int way, int gateBits) {
             int sum = 0;
             for (int g = 0; g < gates; g++) {
-                if (Rows.hasBit(gateBits, g)) {
+                if (hasBit(gateBits, g)) {
                     sum += shareIn(way, g, p);
                 }
             }
@@ -957,7 +1119,7 @@ public final class HookGates {
         int wealthOfFirm(int f, int way) {
             int sum = 0;
             for (int g = 0; g < gates; g++) {
-                if (Rows.at(firmOf, g) == f) {
+                if (at(firmOf, g) == f) {
                     sum += Integer.bitCount(ownersIn(way, g)) * portionIn(way, g);
                 }
             }
@@ -967,7 +1129,7 @@ public final class HookGates {
         int gatesOwned(int p, int way) {
             int bits = 0;
             for (int g = 0; g < gates; g++) {
-                if (Rows.hasBit(ownersIn(way, g), p)) {
+                if (hasBit(ownersIn(way, g), p)) {
                     bits |= 1 << g;
                 }
             }
@@ -995,7 +1157,7 @@ public final class HookGates {
         int firmsWith(int p) {
             int bits = 0;
             for (int f = 0; f < firms; f++) {
-                if (Rows.hasBit(Rows.at(staffs, f), p)) {
+                if (hasBit(at(staffs, f), p)) {
                     bits |= 1 << f;
                 }
             }
@@ -1025,24 +1187,21 @@ public final class HookGates {
 
         /** The i-th person who HAS nothing, or NONE. */
         int beggar(int i, int way) {
-            int met = 0;
+            int passed = 0;
             for (int p = 0; p < people; p++) {
                 if (wealth(p, way) == 0) {
-                    if (met == i) {
+                    if (passed == i) {
                         return p;
                     }
-                    met++;
+                    passed++;
                 }
             }
             return NONE;
         }
 
-        int allHooks() {
-            return hooks + Ways.hooksIn(toldWay);
-        }
-
+        /** Hooks are never lost: what doesn't hang by a way lies on the ground. */
         int hooksLying(int way) {
-            return allHooks() - Ways.hooksIn(way);
+            return hooks + Ways.hooksIn(toldWay) - Ways.hooksIn(way);
         }
 
         boolean isGuarded(int g) {
@@ -1074,34 +1233,6 @@ public final class HookGates {
             return hung == AHEAD ? BEHIND : AHEAD;
         }
 
-        int wantsMet(int way) {
-            int bits = 0;
-            for (int i = 0; i < claims.wants; i++) {
-                int who = ownersIn(way, Rows.at(claims.wantGates, i));
-                int p = Rows.at(claims.wantPeople, i);
-                boolean alone = Rows.at(claims.wantAlone, i) == 1;
-                if (alone ? who == 1 << p : Rows.hasBit(who, p)) {
-                    bits |= 1 << i;
-                }
-            }
-            return bits;
-        }
-
-        boolean meetsAllWants(int way) {
-            return wantsMet(way) == (1 << claims.wants) - 1;
-        }
-
-        /** The first who had something that he HASn't by a way. */
-        int firstBelied(int way) {
-            for (int p = 0; p < people; p++) {
-                int much = Rows.at(claims.had, p);
-                if (much != NONE && much != wealth(p, way)) {
-                    return p;
-                }
-            }
-            return CANNOT_BE;
-        }
-
         boolean isStillWay(int way) {
             for (int g = 0; g < gates; g++) {
                 int hung = Ways.hungAt(way, g);
@@ -1118,7 +1249,7 @@ public final class HookGates {
             int who = ownersIn(way, g);
             int then = Ways.with(way, g, hung);
             for (int p = 0; p < people; p++) {
-                if (Rows.hasBit(who, p) && shareIn(then, g, p) > portionIn(way, g)) {
+                if (hasBit(who, p) && shareIn(then, g, p) > portionIn(way, g)) {
                     return true;
                 }
             }
@@ -1130,19 +1261,92 @@ public final class HookGates {
             if (isGuarded(g) || Ways.hungAt(way, g) == UNHUNG) {
                 return 0;
             }
-            return Rows.at(kinds, g) == LOOSE ? Math.min(100, 2 * gustiness) : gustiness;
+            return at(kinds, g) == LOOSE ? Math.min(100, 2 * gustiness) : gustiness;
+        }
+
+        int fewestPaths(int g, int other) {
+            int reached = 1 << g;
+            for (int far = 0; far < MOST_GATES; far++) {
+                if (hasBit(reached, other)) {
+                    return far;
+                }
+                reached = widened(reached);
+            }
+            return CANNOT_BE;
+        }
+
+        private int widened(int gateBits) {
+            int wider = gateBits;
+            for (int g = 0; g < gates; g++) {
+                if (hasBit(gateBits, g)) {
+                    wider |= at(near, g);
+                }
+            }
+            return wider;
+        }
+
+        /** Gates that hang together with one through gates that are let; none if that one isn't. */
+        int together(int g, int let) {
+            int bits = 1 << g & let;
+            for (int round = 1; round < MOST_GATES; round++) {
+                bits = widened(bits) & let;
+            }
+            return bits;
+        }
+
+        int countParts() {
+            int all = (1 << gates) - 1;
+            int counted = 0;
+            int found = 0;
+            for (int g = 0; g < gates; g++) {
+                if (!hasBit(counted, g)) {
+                    counted |= together(g, all);
+                    found++;
+                }
+            }
+            return found;
+        }
+
+        int fewestSentries() {
+            int all = (1 << gates) - 1;
+            int best = all;
+            for (int bits = 1; bits < all; bits++) {
+                if (Integer.bitCount(bits) < Integer.bitCount(best) && widened(bits) == all) {
+                    best = bits;
+                }
+            }
+            return best;
+        }
+
+        int peopleWithWealth(int way) {
+            int bits = 0;
+            for (int p = 0; p < people; p++) {
+                if (wealth(p, way) > 0) {
+                    bits |= 1 << p;
+                }
+            }
+            return bits;
+        }
+
+        int fewestRulers(int way) {
+            int everyone = (1 << people) - 1;
+            int votes = wealthOfSet(everyone, way);
+            if (votes == 0) {
+                return CANNOT_BE;
+            }
+            int best = everyone;
+            for (int bits = 1; bits < everyone; bits++) {
+                if (Integer.bitCount(bits) < Integer.bitCount(best)
+                        && 2 * wealthOfSet(bits, way) > votes) {
+                    best = bits;
+                }
+            }
+            return best;
         }
     }
 
-    /** TOKENS of a text from the left, and the LAND that they tell, up to the first FAULT. */
+    /** The LAND that THE TAPE tells, up to the first FAULT. */
     private static final class Reader {
-        private static final int END = 0;
-        private static final int WORD = 1;
-        private static final int WHOLE = 2;
-        private static final int SEMICOLON = 3;
-        private static final int COMMA = 4;
-        private static final int UNFIT = 5;
-
         private static final int FORM = 1;
         private static final int UNTOLD = 2;
         private static final int AGAIN = 3;
@@ -1160,19 +1364,11 @@ public final class HookGates {
         private static final int LOST_LINE = 7;
         private static final int HAD_LINE = 8;
 
-        private static final int LONGEST_WORD = 8;
-        private static final int LONGEST_WHOLE = 3;
         private static final int MOST_NAMES = MOST_PEOPLE + MOST_FIRMS + MOST_GATES;
 
-        private byte[] bytes = new byte[0];
-        private int end;
-        private int next;
-        private int sort;
-        private int place;
-        private long word;
-        private int value;
-
-        private Land into = null;
+        private final Tape tape;
+        // Not the LAND of NOW, since a text with a FAULT must leave that one alone.
+        private Land into = new Land();
         private boolean landTold;
         private final long[] names = new long[MOST_NAMES];
         private final int[] nameLines = new int[MOST_NAMES];
@@ -1182,32 +1378,35 @@ public final class HookGates {
         int fault;
         int faultPlace;
 
-        boolean readText(Tape tape, int n, Land land) {
-            bytes = tape.bytes;
-            end = n;
-            next = 0;
-            into = land;
+        Reader(Tape text) {
+            tape = text;
+        }
+
+        /** The LAND that was read, for another one that may be written over. */
+        Land handOver(Land old) {
+            Land told = into;
+            into = old;
+            return told;
+        }
+
+        boolean readText(int n) {
             into.clear();
             landTold = false;
             nameCount = 0;
             fault = 0;
             faultPlace = NONE;
-            advance();
-            return readLines();
-        }
-
-        private boolean readLines() {
+            tape.startReading(n);
             for (int line = 0; line <= TAPE_BYTES; line++) {
                 if (!readLine()) {
                     return false;
                 }
-                if (sort == END) {
+                if (tape.sort == Tape.END) {
                     return into.gates > 0 || fail(LACKS);
                 }
-                if (sort != SEMICOLON) {
+                if (tape.sort != Tape.SEMICOLON) {
                     return fail(FORM);
                 }
-                advance();
+                tape.advance();
             }
             return fail(FORM);
         }
@@ -1226,7 +1425,7 @@ public final class HookGates {
             if (isFull(line)) {
                 return fail(MANY);
             }
-            advance();
+            tape.advance();
             switch (line) {
                 case PERSON_LINE: return readPerson();
                 case FIRM_LINE: return readFirm();
@@ -1241,34 +1440,31 @@ public final class HookGates {
 
         /** Which LINE the WORD at hand begins; such a WORD is no NAME. */
         private int lineOf() {
-            if (sort != WORD) {
-                return NONE;
-            }
-            if (spells("land")) {
+            if (tape.spells("land")) {
                 return LAND_LINE;
             }
-            if (spells("person")) {
+            if (tape.spells("person")) {
                 return PERSON_LINE;
             }
-            if (spells("firm")) {
+            if (tape.spells("firm")) {
                 return FIRM_LINE;
             }
-            if (spells("gate")) {
+            if (tape.spells("gate")) {
                 return GATE_LINE;
             }
-            if (spells("path")) {
+            if (tape.spells("path")) {
                 return PATH_LINE;
             }
-            if (spells("wants")) {
+            if (tape.spells("wants")) {
                 return WANTS_LINE;
             }
-            if (spells("alone")) {
+            if (tape.spells("alone")) {
                 return ALONE_LINE;
             }
-            if (spells("lost")) {
+            if (tape.spells("lost")) {
                 return LOST_LINE;
             }
-            return spells("had") ? HAD_LINE : NONE;
+            return tape.spells("had") ? HAD_LINE : NONE;
         }
 
         private boolean isFull(int line) {
@@ -1286,17 +1482,17 @@ public final class HookGates {
 
         private boolean readLandLine() {
             landTold = true;
-            advance();
+            tape.advance();
             if (!readWord("hooks") || !isWholeUpTo(6)) {
                 return false;
             }
-            into.hooks = value;
-            advance();
+            into.hooks = tape.value;
+            tape.advance();
             if (!readWord("gust") || !isWholeUpTo(100)) {
                 return false;
             }
-            into.gustiness = value;
-            advance();
+            into.gustiness = tape.value;
+            tape.advance();
             return true;
         }
 
@@ -1313,33 +1509,28 @@ public final class HookGates {
             if (!readNewName(FIRM_LINE, f)) {
                 return false;
             }
-            int head = toldNumber(PERSON_LINE);
-            if (head == NONE || !readMember(f)) {
-                return false;
-            }
-            Rows.put(into.heads, f, head);
+            int staff = 0;
             // One more than there are people can't be unlike, so the bound cuts no firm short.
-            for (int i = 0; i < MOST_PEOPLE && sort == COMMA; i++) {
-                advance();
-                if (!readMember(f)) {
+            for (int i = 0; i <= MOST_PEOPLE; i++) {
+                int p = toldNumber(PERSON_LINE);
+                if (p == NONE) {
                     return false;
                 }
+                if (hasBit(staff, p)) {
+                    return fail(AGAIN);
+                }
+                staff |= 1 << p;
+                if (i == 0) {
+                    put(into.heads, f, p);
+                }
+                tape.advance();
+                if (tape.sort != Tape.COMMA) {
+                    break;
+                }
+                tape.advance();
             }
+            put(into.staffs, f, staff);
             into.firms++;
-            return true;
-        }
-
-        private boolean readMember(int f) {
-            int p = toldNumber(PERSON_LINE);
-            if (p == NONE) {
-                return false;
-            }
-            int staff = Rows.at(into.staffs, f);
-            if (Rows.hasBit(staff, p)) {
-                return fail(AGAIN);
-            }
-            Rows.put(into.staffs, f, staff | 1 << p);
-            advance();
             return true;
         }
 
@@ -1351,47 +1542,47 @@ public final class HookGates {
             if (kind == NONE) {
                 return fail(FORM);
             }
-            advance();
+            tape.advance();
             int f = toldNumber(FIRM_LINE);
             if (f == NONE) {
                 return false;
             }
-            advance();
+            tape.advance();
             if (!readWord("worth") || !isWholeUpTo(99)) {
                 return false;
             }
-            int worth = value;
-            advance();
+            int worth = tape.value;
+            tape.advance();
             int hung = hungOf();
             if (hung == NONE) {
                 return fail(FORM);
             }
             into.addGate(kind, f, worth, hung);
-            advance();
+            tape.advance();
             return true;
         }
 
         private int kindOf() {
-            if (spells("plain")) {
+            if (tape.spells("plain")) {
                 return PLAIN;
             }
-            if (spells("odd")) {
+            if (tape.spells("odd")) {
                 return ODD;
             }
-            if (spells("guarded")) {
+            if (tape.spells("guarded")) {
                 return GUARDED;
             }
-            return spells("loose") ? LOOSE : NONE;
+            return tape.spells("loose") ? LOOSE : NONE;
         }
 
         private int hungOf() {
-            if (spells("none")) {
+            if (tape.spells("none")) {
                 return UNHUNG;
             }
-            if (spells("ahead")) {
+            if (tape.spells("ahead")) {
                 return AHEAD;
             }
-            return spells("behind") ? BEHIND : NONE;
+            return tape.spells("behind") ? BEHIND : NONE;
         }
 
         private boolean readPath() {
@@ -1399,16 +1590,16 @@ public final class HookGates {
             if (g == NONE) {
                 return false;
             }
-            advance();
+            tape.advance();
             int other = toldNumber(GATE_LINE);
             if (other == NONE) {
                 return false;
             }
-            if (other == g || Rows.hasBit(Rows.at(into.near, g), other)) {
+            if (other == g || hasBit(at(into.near, g), other)) {
                 return fail(AGAIN);
             }
             into.addPath(g, other);
-            advance();
+            tape.advance();
             return true;
         }
 
@@ -1417,13 +1608,13 @@ public final class HookGates {
             if (p == NONE) {
                 return false;
             }
-            advance();
+            tape.advance();
             int g = toldNumber(GATE_LINE);
             if (g == NONE) {
                 return false;
             }
             into.claims.addWant(p, g, alone);
-            advance();
+            tape.advance();
             return true;
         }
 
@@ -1436,7 +1627,7 @@ public final class HookGates {
                 return fail(AGAIN);
             }
             into.claims.addLost(g);
-            advance();
+            tape.advance();
             return true;
         }
 
@@ -1445,71 +1636,67 @@ public final class HookGates {
             if (p == NONE) {
                 return false;
             }
-            if (Rows.at(into.claims.had, p) != NONE) {
+            if (at(into.claims.had, p) != NONE) {
                 return fail(AGAIN);
             }
-            advance();
+            tape.advance();
             if (!isWholeUpTo(MOST_MUCH)) {
                 return false;
             }
-            into.claims.addHad(p, value);
-            advance();
+            into.claims.addHad(p, tape.value);
+            tape.advance();
             return true;
         }
 
         private boolean readWord(String text) {
-            if (!spells(text)) {
+            if (!tape.spells(text)) {
                 return fail(FORM);
             }
-            advance();
+            tape.advance();
             return true;
         }
 
         private boolean isWholeUpTo(int most) {
-            if (sort != WHOLE) {
+            if (tape.sort != Tape.WHOLE) {
                 return fail(FORM);
             }
-            return value <= most || fail(BOUNDS);
+            return tape.value <= most || fail(BOUNDS);
         }
 
         private boolean readNewName(int line, int number) {
-            if (!isName()) {
+            if (tape.sort != Tape.WORD || lineOf() != NONE) {
                 return fail(FORM);
             }
             if (nameIndex() != NONE) {
                 return fail(AGAIN);
             }
             if (nameCount < MOST_NAMES && nameCount >= 0) {
-                names[nameCount] = word;
+                names[nameCount] = tape.word;
                 nameLines[nameCount] = line;
                 nameNumbers[nameCount] = number;
                 nameCount++;
             }
-            advance();
+            tape.advance();
             return true;
         }
 
         /** The number of what the NAME at hand names, which must have been told by such a LINE. */
         private int toldNumber(int line) {
-            if (!isName()) {
+            if (tape.sort != Tape.WORD || lineOf() != NONE) {
                 fail(FORM);
                 return NONE;
             }
             int i = nameIndex();
-            if (i == NONE || Rows.at(nameLines, i) != line) {
+            if (i == NONE || at(nameLines, i) != line) {
                 fail(UNTOLD);
                 return NONE;
             }
-            return Rows.at(nameNumbers, i);
-        }
-
-        private boolean isName() {
-            return sort == WORD && lineOf() == NONE;
+            return at(nameNumbers, i);
         }
 
         private int nameIndex() {
             for (int i = 0; i < nameCount && i < MOST_NAMES; i++) {
-                if (names[i] == word) {
+                if (names[i] == tape.word) {
                     return i;
                 }
             }
@@ -1518,79 +1705,14 @@ public final class HookGates {
 
         private boolean fail(int number) {
             fault = number;
-            faultPlace = place;
+            faultPlace = tape.place;
             return false;
-        }
-
-        private boolean spells(String text) {
-            if (sort != WORD) {
-                return false;
-            }
-            long letters = 0;
-            for (int i = 0; i < text.length(); i++) {
-                letters = withLetter(letters, text.charAt(i));
-            }
-            return word == letters;
-        }
-
-        /** Five bits a letter, none of them 0, so that unlike WORDS are unlike numbers. */
-        private static long withLetter(long letters, int letter) {
-            return letters << 5 | letter - 'a' + 1;
-        }
-
-        private void advance() {
-            while (next < end && byteAt(next) == ' ') {
-                next++;
-            }
-            place = next;
-            int sign = byteAt(place);
-            if (place >= end) {
-                sort = END;
-            } else if (isLetter(sign)) {
-                scanWord();
-            } else if (isDigit(sign)) {
-                scanWhole();
-            } else {
-                sort = sign == ';' ? SEMICOLON : sign == ',' ? COMMA : UNFIT;
-                next++;
-            }
-        }
-
-        /** A run of more letters than a WORD has is none, so its first byte begins no TOKEN. */
-        private void scanWord() {
-            word = 0;
-            while (next < end && isLetter(byteAt(next))) {
-                word = withLetter(word, byteAt(next));
-                next++;
-            }
-            sort = next - place <= LONGEST_WORD ? WORD : UNFIT;
-        }
-
-        private void scanWhole() {
-            value = 0;
-            while (next < end && isDigit(byteAt(next))) {
-                value = 10 * value + byteAt(next) - '0';
-                next++;
-            }
-            sort = next - place <= LONGEST_WHOLE ? WHOLE : UNFIT;
-        }
-
-        private int byteAt(int i) {
-            return i >= 0 && i < bytes.length ? bytes[i] : 0;
-        }
-
-        private static boolean isLetter(int sign) {
-            return sign >= 'a' && sign <= 'z';
-        }
-
-        private static boolean isDigit(int sign) {
-            return sign >= '0' && sign <= '9';
         }
     }
 
     /**
-     * All ways that MOVES lead to, nearest first. Each is met first by the first row of MOVES of its
-     * fewest, since ways are looked at in the order of their rows and MOVES in that of their numbers.
+     * All ways that MOVES lead to, nearest first. Each is met first by the first row of its fewest
+     * MOVES, since ways are looked at in the order of their rows and MOVES in that of their numbers.
      */
     private static final class Errands {
         private static final int MOST_WAYS = 729;
@@ -1625,7 +1747,7 @@ public final class HookGates {
         private void exploreFrom(Land land, int i) {
             for (int sort = HANG_AHEAD; sort <= TURN; sort++) {
                 for (int g = 0; g < land.gates; g++) {
-                    int way = land.wayAfter(Rows.at(ways, i), sort, g);
+                    int way = land.wayAfter(at(ways, i), sort, g);
                     if (way != NONE) {
                         add(way, i, sort * land.gates + g);
                     }
@@ -1634,21 +1756,22 @@ public final class HookGates {
         }
 
         private void add(int way, int parent, int move) {
-            int bits = Rows.at(seen, way >> 5);
-            if (Rows.hasBit(bits, way & 31)) {
+            int bits = at(seen, way >> 5);
+            if (hasBit(bits, way & 31)) {
                 return;
             }
-            Rows.put(seen, way >> 5, bits | 1 << (way & 31));
-            Rows.put(ways, count, way);
-            Rows.put(parents, count, parent);
-            Rows.put(moves, count, move);
-            Rows.put(depths, count, parent == NONE ? 0 : movesTo(parent) + 1);
+            put(seen, way >> 5, bits | 1 << (way & 31));
+            put(ways, count, way);
+            put(parents, count, parent);
+            put(moves, count, move);
+            put(depths, count, parent == NONE ? 0 : movesTo(parent) + 1);
             count++;
         }
 
         int firstMeetingWants(Land land) {
+            int allWants = (1 << land.claims.wants) - 1;
             for (int i = 0; i < count; i++) {
-                if (land.meetsAllWants(Rows.at(ways, i))) {
+                if (land.claims.wantsMet(land, at(ways, i)) == allWants) {
                     return i;
                 }
             }
@@ -1657,7 +1780,7 @@ public final class HookGates {
 
         int firstWithWealth(Land land, int p, int much) {
             for (int i = 0; i < count; i++) {
-                if (land.wealth(p, Rows.at(ways, i)) >= much) {
+                if (land.wealth(p, at(ways, i)) >= much) {
                     return i;
                 }
             }
@@ -1667,26 +1790,26 @@ public final class HookGates {
         int mostWealthWithin(Land land, int p, int most) {
             int best = 0;
             for (int i = 0; i < count && movesTo(i) <= most; i++) {
-                best = Math.max(best, land.wealth(p, Rows.at(ways, i)));
+                best = Math.max(best, land.wealth(p, at(ways, i)));
             }
             return best;
         }
 
         int movesTo(int i) {
-            return Rows.at(depths, i);
+            return at(depths, i);
         }
 
         /** The i-th MOVE of the row that leads to a goal, found from its end. */
         int moveTowards(int goal, int i) {
             int step = goal;
             for (int left = movesTo(goal) - 1; left > i; left--) {
-                step = Rows.at(parents, step);
+                step = at(parents, step);
             }
-            return Rows.at(moves, step);
+            return at(moves, step);
         }
     }
 
-    /** What all ways hooks may hang tell. It hangs on the LAND alone, so it is made once for each. */
+    /** What all ways hooks may hang tell: it hangs on the LAND alone, so it is made once. */
     private static final class Survey {
         private boolean made;
         int coverWay;
@@ -1707,8 +1830,8 @@ public final class HookGates {
             stillWays = 0;
             fairWay = land.toldWay;
             fairLeast = NONE;
-            int step = Ways.stepFor(land.gates);
-            for (int way = 0; way < Ways.BOUND; way += step) {
+            for (int code = 0; code < Ways.codesOf(land.gates); code++) {
+                int way = Ways.fromCode(code, land.gates);
                 if (land.mayHangSo(way)) {
                     lookAt(land, way);
                 }
@@ -1748,27 +1871,28 @@ public final class HookGates {
             }
             sought = true;
             count = 0;
-            int step = Ways.stepFor(land.claims.lost);
-            for (int lostWay = 0; lostWay < Ways.BOUND; lostWay += step) {
-                if (Ways.isWay(lostWay) && land.firstBelied(wholeWay(land, lostWay)) == CANNOT_BE) {
-                    Rows.put(found, count, lostWay);
+            int lost = land.claims.lost;
+            for (int code = 0; code < Ways.codesOf(lost); code++) {
+                int lostWay = Ways.fromCode(code, lost);
+                if (Ways.isWay(lostWay) && isFit(land, lostWay)) {
+                    put(found, count, lostWay);
                     count++;
                 }
             }
         }
 
-        private static int wholeWay(Land land, int lostWay) {
+        private static boolean isFit(Land land, int lostWay) {
             int way = land.toldWay;
             for (int k = 0; k < land.claims.lost; k++) {
-                way = Ways.with(way, Rows.at(land.claims.lostGates, k), Ways.hungAt(lostWay, k));
+                way = Ways.with(way, at(land.claims.lostGates, k), Ways.hungAt(lostWay, k));
             }
-            return way;
+            return land.claims.firstBelied(land, way) == CANNOT_BE;
         }
 
         int countHung(int k, int hung) {
             int times = 0;
             for (int i = 0; i < count; i++) {
-                if (Ways.hungAt(Rows.at(found, i), k) == hung) {
+                if (Ways.hungAt(at(found, i), k) == hung) {
                     times++;
                 }
             }
@@ -1800,71 +1924,14 @@ public final class HookGates {
         }
     }
 
-    /** Paths: gates are bits, so that a round looks at all gates at once. */
-    private static final class Roads {
-        static int fewestPaths(Land land, int g, int other) {
-            int reached = 1 << g;
-            for (int far = 0; far < MOST_GATES; far++) {
-                if (Rows.hasBit(reached, other)) {
-                    return far;
-                }
-                reached = widened(land, reached);
-            }
-            return CANNOT_BE;
-        }
-
-        private static int widened(Land land, int gateBits) {
-            int wider = gateBits;
-            for (int g = 0; g < land.gates; g++) {
-                if (Rows.hasBit(gateBits, g)) {
-                    wider |= Rows.at(land.near, g);
-                }
-            }
-            return wider;
-        }
-
-        /** Gates that hang together with one through gates that are let; none if that one isn't. */
-        static int together(Land land, int g, int let) {
-            int bits = 1 << g & let;
-            for (int round = 1; round < MOST_GATES; round++) {
-                bits = widened(land, bits) & let;
-            }
-            return bits;
-        }
-
-        static int countParts(Land land) {
-            int all = (1 << land.gates) - 1;
-            int counted = 0;
-            int found = 0;
-            for (int g = 0; g < land.gates; g++) {
-                if (!Rows.hasBit(counted, g)) {
-                    counted |= together(land, g, all);
-                    found++;
-                }
-            }
-            return found;
-        }
-
-        static int fewestSentries(Land land) {
-            int all = (1 << land.gates) - 1;
-            int best = all;
-            for (int bits = 1; bits < all; bits++) {
-                if (Integer.bitCount(bits) < Integer.bitCount(best) && widened(land, bits) == all) {
-                    best = bits;
-                }
-            }
-            return best;
-        }
-    }
-
-    /** A ratio of WHOLES in lowest terms. */
+    /** Answers of two WHOLES, in lowest terms. */
     private static final class Ratio {
         private static final int MOST_STEPS = 100;
 
         long upper;
         long lower;
 
-        void set(long newUpper, long newLower) {
+        private void set(long newUpper, long newLower) {
             long common = commonDivisor(newUpper, newLower);
             upper = common > 0 ? newUpper / common : newUpper;
             lower = common > 0 ? newLower / common : newLower;
@@ -1880,123 +1947,36 @@ public final class HookGates {
             }
             return greater;
         }
-    }
 
-    /** VOTES. */
-    private static final class Votes {
-        static void reckonPower(Land land, int way, int p, Ratio ratio) {
+        void setPower(Land land, int way, int p) {
             int own = land.wealth(p, way);
-            int all = votesOf(land, way, everyone(land));
+            int others = land.peopleWithWealth(way) & ~(1 << p);
+            int all = own + land.wealthOfSet(others, way);
             int sets = 0;
-            int turnedByHim = 0;
-            int others = owning(land, way) & ~(1 << p);
+            int decided = 0;
             for (int bits = 0; bits <= others; bits++) {
                 if ((bits & ~others) == 0) {
-                    int votes = votesOf(land, way, bits);
+                    int votes = land.wealthOfSet(bits, way);
                     sets++;
                     if (2 * votes <= all && 2 * (votes + own) > all) {
-                        turnedByHim++;
+                        decided++;
                     }
                 }
             }
-            ratio.set(turnedByHim, sets);
+            set(decided, sets);
         }
 
-        static int fewestRulers(Land land, int way) {
-            int everyone = everyone(land);
-            int all = votesOf(land, way, everyone);
-            if (all == 0) {
-                return CANNOT_BE;
-            }
-            int best = everyone;
-            for (int bits = 1; bits < everyone; bits++) {
-                if (Integer.bitCount(bits) < Integer.bitCount(best)
-                        && 2 * votesOf(land, way, bits) > all) {
-                    best = bits;
-                }
-            }
-            return best;
-        }
-
-        private static int everyone(Land land) {
-            return (1 << land.people) - 1;
-        }
-
-        private static int owning(Land land, int way) {
-            int bits = 0;
-            for (int p = 0; p < land.people; p++) {
-                if (land.wealth(p, way) > 0) {
-                    bits |= 1 << p;
-                }
-            }
-            return bits;
-        }
-
-        private static int votesOf(Land land, int way, int peopleBits) {
-            int votes = 0;
-            for (int p = 0; p < land.people; p++) {
-                if (Rows.hasBit(peopleBits, p)) {
-                    votes += land.wealth(p, way);
-                }
-            }
-            return votes;
-        }
-    }
-
-    /** THIEF and SENTRY; a pair is 2 if the one steals, and 1 if the other one watches. */
-    private static final class Theft {
-        private static final int PAIRS = 4;
-
-        static int pay(int worth, boolean steals, boolean watches, boolean ofSentry) {
-            if (steals) {
-                if (watches) {
-                    return ofSentry ? 2 : -3;
-                }
-                return ofSentry ? -worth : worth;
-            }
-            return watches && ofSentry ? -1 : 0;
-        }
-
-        static int countRests(int worth) {
-            int found = 0;
-            for (int pair = 0; pair < PAIRS; pair++) {
-                if (isRest(worth, pair)) {
-                    found++;
-                }
-            }
-            return found;
-        }
-
-        static int firstRest(int worth) {
-            for (int pair = 0; pair < PAIRS; pair++) {
-                if (isRest(worth, pair)) {
-                    return 10 * (pair >> 1) + (pair & 1);
-                }
-            }
-            return CANNOT_BE;
-        }
-
-        private static boolean isRest(int worth, int pair) {
-            boolean steals = pair >= 2;
-            boolean watches = (pair & 1) == 1;
-            return pay(worth, !steals, watches, false) <= pay(worth, steals, watches, false)
-                    && pay(worth, steals, !watches, true) <= pay(worth, steals, watches, true);
-        }
-    }
-
-    /** GUSTS by chance: each gate's hook for itself, in hundredths. */
-    private static final class Chance {
-        static void reckonHolding(int falling, int years, Ratio ratio) {
-            long upper = 1;
-            long lower = 1;
+        void setHolding(int falling, int years) {
+            long likely = 1;
+            long outOf = 1;
             for (int year = 0; year < years; year++) {
-                upper *= 100 - falling;
-                lower *= 100;
+                likely *= 100 - falling;
+                outOf *= 100;
             }
-            ratio.set(upper, lower);
+            set(likely, outOf);
         }
 
-        static void reckonMean(Land land, int way, int p, Ratio ratio) {
+        void setMean(Land land, int way, int p) {
             long hundredths = 0;
             for (int g = 0; g < land.gates; g++) {
                 int falling = land.fallingIn(way, g);
@@ -2004,30 +1984,29 @@ public final class HookGates {
                 hundredths += (100 - falling) * land.shareIn(way, g, p);
                 hundredths += falling * land.shareIn(fallen, g, p);
             }
-            ratio.set(hundredths, 100);
+            set(hundredths, 100);
         }
 
-        static void reckonKeeping(Land land, int way, int p, int much, Ratio ratio) {
-            long upper = 0;
-            long lower = 1;
+        void setKeeping(Land land, int way, int p, int much) {
+            long likely = 0;
+            long outOf = 1;
             for (int g = 0; g < land.gates; g++) {
-                lower *= 100;
+                outOf *= 100;
             }
             for (int bits = 0; bits < 1 << land.gates; bits++) {
-                long likely = likelihood(land, way, bits);
-                if (likely > 0 && land.wealth(p, wayWithout(way, bits)) >= much) {
-                    upper += likely;
+                if (land.wealth(p, wayWithout(way, bits)) >= much) {
+                    likely += likelihood(land, way, bits);
                 }
             }
-            ratio.set(upper, lower);
+            set(likely, outOf);
         }
 
-        /** That just the hooks at these gates fall; a gate whose hook can't counts as one that stays. */
+        /** That just the hooks at these gates fall: 0 if one of them can't. */
         private static long likelihood(Land land, int way, int gateBits) {
             long likely = 1;
             for (int g = 0; g < land.gates; g++) {
                 int falling = land.fallingIn(way, g);
-                likely *= Rows.hasBit(gateBits, g) ? falling : 100 - falling;
+                likely *= hasBit(gateBits, g) ? falling : 100 - falling;
             }
             return likely;
         }
@@ -2035,37 +2014,11 @@ public final class HookGates {
         private static int wayWithout(int way, int gateBits) {
             int left = way;
             for (int g = 0; g < MOST_GATES; g++) {
-                if (Rows.hasBit(gateBits, g)) {
+                if (hasBit(gateBits, g)) {
                     left = Ways.with(left, g, UNHUNG);
                 }
             }
             return left;
-        }
-    }
-
-    /** GUSTS by a SEED, year by year. */
-    private static final class Gale {
-        int way;
-        int seed;
-        int fallen;
-
-        void begin(int fromWay, int fromSeed) {
-            way = fromWay;
-            seed = fromSeed;
-        }
-
-        /** A hook that can fall takes a DRAW even where none ever falls. */
-        void blow(Land land) {
-            fallen = 0;
-            for (int g = 0; g < land.gates; g++) {
-                if (!land.isGuarded(g) && Ways.hungAt(way, g) != UNHUNG) {
-                    seed = (75 * seed + 74) % SEED_MODULUS;
-                    if (seed % 100 < land.fallingIn(way, g)) {
-                        way = Ways.with(way, g, UNHUNG);
-                        fallen++;
-                    }
-                }
-            }
         }
     }
 }

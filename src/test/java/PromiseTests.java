@@ -33,6 +33,7 @@ public final class PromiseTests {
         faults();
         faultNumbersByPlace();
         manyAndNames();
+        nearlyAlike();
         faultAndWhere();
         gate();
         person();
@@ -353,6 +354,44 @@ public final class PromiseTests {
         sound("land hooks 1 gust 1;person gust;firm plain gust;gate odd odd plain worth 1 behind;wants gust odd", 1);
     }
 
+    /** Names and words that are nearly alike. */
+    private static void nearlyAlike() {
+        String[] names = "a aa aaa ab b ba z az za zz r q p aq qa baa aab abc zzzzzzzz zzzzzzzy azzzzzzz aaaaaaaa aaaaaaa".split(" ");
+        for (String one : names) {
+            for (String other : names) {
+                String text = "land hooks 1 gust 1;person " + one + ";person " + other + ";firm x " + other + "," + one
+                    + ";gate y odd x worth 1 none";
+                HookGates x = new HookGates();
+                due(3, "names " + one + " and " + other, tell(x, text), one.equals(other) ? NONE : 1);
+                due(4, "names " + one + " and " + other, x.fault(), one.equals(other) ? 3 : 0);
+                due(8, "the head", x.firm(0, 0), one.equals(other) ? NONE : 1);
+            }
+        }
+        for (String word : "land person firm gate path wants alone lost had".split(" ")) {
+            faultIn("person " + word, 1, 7);
+            faultIn("lost " + word, 1, 5);
+            for (int i = 0; i < word.length(); i++) {
+                String near = word.substring(0, i) + "x" + word.substring(i + 1);
+                faultIn(near, 1, 0);
+                sound(HEAD + BODY + ";person " + near, 2);
+                sound(HEAD + BODY + ";person " + word.substring(0, i) + word.substring(i + 1), 2);
+            }
+            sound(HEAD + BODY + ";person " + word + "s", 2);
+        }
+        for (String word : "plain odd guarded loose".split(" ")) {
+            sound(HEAD + BODY + ";gate c " + word + " f worth 0 none", 3);
+            faultIn("gate c x" + word.substring(1) + " f worth 0 none", 1, 7);
+            faultIn("gate c " + word.substring(1) + " f worth 0 none", 1, 7);
+        }
+        for (String word : "none ahead behind".split(" ")) {
+            sound(HEAD + BODY + ";gate c odd f worth 0 " + word, 3);
+            faultIn("gate c odd f worth 0 x" + word.substring(1), 1, 21);
+        }
+        faultIn("gate c odd f xorth 0 none", 1, 13);
+        fault("land xooks 0 gust 0", 1, 5);
+        fault("land hooks 0 xust 0", 1, 13);
+    }
+
     private static void faultAndWhere() {
         HookGates x = new HookGates();
         tell(x, "land hooks 9");
@@ -559,6 +598,15 @@ public final class PromiseTests {
         // two gates, one hook: none, or at either in two ways
         due(19, "few hooks", told("land hooks 1 gust 0;person p;firm f p;gate a plain f worth 5 none;"
             + "gate b plain f worth 5 none").reach(), 5);
+        String six = "land hooks 6 gust 0;person p;person q;firm f p,q";
+        for (String name : "a b c d e g".split(" ")) {
+            six += ";gate " + name + " plain f worth 2 none";
+        }
+        HookGates y = told(six);
+        due(19, "all ways of six gates", y.reach(), 729);
+        due(17, "the farthest of them", y.movesFor(1, 6), 6);
+        due(18, "the farthest of them", y.mostBy(1, 6), 6);
+        due(18, "all but the farthest of them", y.mostBy(1, 5), 5);
         x.take(1);
         due(17, "reckoned from now", x.movesFor(0, 22), 0);
         due(18, "reckoned from now", x.mostBy(0, 0), 22);
@@ -1025,6 +1073,15 @@ public final class PromiseTests {
         denied(51, x, "nothing to undo", x.undo(), 6);
         x.hang(0, true);
         due(51, "a refused one is no act", x.size(11), 0);
+        HookGates y = told("land hooks 0 gust 0;person p;firm f p;gate a plain f worth 1 ahead");
+        for (int i = 0; i < 20; i++) {
+            y.gust();
+        }
+        for (int i = 15; i >= 0; i--) {
+            due(51, "undo", y.undo(), true);
+            due(51, "the year of each", y.size(9), 4 + i);
+            due(51, "the seed of each", y.size(10), draws(0, 4 + i));
+        }
     }
 
     private static void images() {

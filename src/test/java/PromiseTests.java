@@ -1,28 +1,5 @@
-import java.nio.charset.StandardCharsets;
-import java.util.Arrays;
-import java.util.NoSuchElementException;
-
 /** For each promise of the document its answers by hand: ordinary ones, edges, wrong inputs. */
-public final class PromiseTests {
-    private static final int NONE = HookGates.NONE;
-    private static int wrong;
-    private static int checks;
-
-    /** Three people, two firms, a gate of each kind: one hook lies on the ground, three hang. */
-    private static final String FOUR = "land hooks 1 gust 50;person p;person q;person r;firm f p,q;firm g r,p;"
-        + "gate a plain f worth 10 ahead;gate b odd f worth 9 behind;gate c guarded g worth 7 behind;"
-        + "gate d loose g worth 20 none;path a b;path b c;wants q a;alone r d;lost a;lost d;had p 13";
-
-    /** Five people, four firms, six gates in a row and one path across, nothing wanted or lost. */
-    private static final String SIX = "land hooks 2 gust 30;person a;person b;person c;person d;person e;"
-        + "firm fa a;firm fb b,c;firm fc c,d,e;firm fd e,d,c,b,a;"
-        + "gate ga plain fa worth 99 ahead;gate gb odd fb worth 50 none;gate gc loose fc worth 31 behind;"
-        + "gate gd plain fd worth 12 behind;gate ge odd fd worth 4 ahead;gate gf guarded fa worth 8 none;"
-        + "path ga gb;path gb gc;path gc gd;path gd ge;path ge gf;path gf ga";
-
-    /** One man, one gate, no hooks. */
-    private static final String ONE = "land hooks 0 gust 0;person p;firm f p;gate a plain f worth 5 none";
-
+public final class PromiseTests extends Checks {
     private static final String HEAD = "land hooks 2 gust 5;";
     private static final String BODY = "person p;person q;firm f p,q;gate a plain f worth 5 none;gate b odd f worth 5 ahead";
 
@@ -68,63 +45,10 @@ public final class PromiseTests {
         size();
         trouble();
         withoutLand();
-        System.out.println(checks + " checks, " + wrong + " wrong");
-        if (wrong != 0) {
-            System.exit(1);
-        }
+        finish();
     }
 
     // ---- helpers
-
-    private static void due(int promise, String what, long got, long due) {
-        checks++;
-        if (got != due) {
-            wrong++;
-            System.out.println("promise " + promise + ": " + what + " answered " + got + ", due is " + due);
-        }
-    }
-
-    private static void due(int promise, String what, boolean got, boolean due) {
-        due(promise, what, got ? 1 : 0, due ? 1 : 0);
-    }
-
-    private static int feedText(HookGates x, String text) {
-        byte[] bytes = text.getBytes(StandardCharsets.ISO_8859_1);
-        int fed = x.size(13);
-        for (int at = 0; at < bytes.length; at += 20) {
-            byte[] twenty = new byte[20];
-            Arrays.fill(twenty, (byte) ' ');
-            System.arraycopy(bytes, at, twenty, 0, Math.min(20, bytes.length - at));
-            int[] five = new int[5];
-            for (int i = 0; i < 20; i++) {
-                five[i / 4] = five[i / 4] << 8 | twenty[i] & 255;
-            }
-            fed = x.feed(five[0], five[1], five[2], five[3], five[4]);
-        }
-        return fed;
-    }
-
-    private static int tell(HookGates x, String text) {
-        feedText(x, text);
-        return x.land(text.length());
-    }
-
-    private static HookGates told(String text) {
-        HookGates x = new HookGates();
-        due(3, "land of " + text, tell(x, text) > 0, true);
-        return x;
-    }
-
-    /** A refused call: its answer, then its TROUBLE. */
-    private static void refused(int promise, HookGates x, String what, long got, int trouble) {
-        due(promise, what, got, NONE);
-        due(promise, "trouble of " + what, x.trouble(), trouble);
-    }
-
-    private static void denied(int promise, HookGates x, String what, boolean got, int trouble) {
-        due(promise, what, got, false);
-        due(promise, "trouble of " + what, x.trouble(), trouble);
-    }
 
     private static void fault(String text, int number, int place) {
         HookGates x = new HookGates();
@@ -148,18 +72,6 @@ public final class PromiseTests {
         due(4, "fault of " + text, x.fault(), 0);
         due(5, "where of " + text, x.where(), NONE);
         due(56, "trouble of " + text, x.trouble(), 0);
-    }
-
-    private static String hungs(HookGates x, int gates) {
-        StringBuilder row = new StringBuilder();
-        for (int g = 0; g < gates; g++) {
-            row.append(x.gate(g, 3));
-        }
-        return row.toString();
-    }
-
-    private static void dueRow(int promise, String what, String got, String due) {
-        due(promise, what + " (" + got + " for " + due + ")", got.equals(due), true);
     }
 
     // ---- the land
@@ -862,11 +774,6 @@ public final class PromiseTests {
 
     // ---- gusts
 
-    private static void dueRatio(int promise, String what, long upper, long lower, long dueUpper, long dueLower) {
-        due(promise, what + ", upper", upper, dueUpper);
-        due(promise, what + ", lower", lower, dueLower);
-    }
-
     private static void holds() {
         HookGates x = told(SIX);
         dueRatio(41, "0 years", x.holds(0, 0, false), x.holds(0, 0, true), 1, 1);
@@ -1039,14 +946,6 @@ public final class PromiseTests {
         due(49, "999 years", x.size(9), 999);
     }
 
-    private static int draws(int seed, int n) {
-        int v = seed;
-        for (int i = 0; i < n; i++) {
-            v = (75 * v + 74) % 65537;
-        }
-        return v;
-    }
-
     private static void undo() {
         HookGates x = told(FOUR);
         denied(51, x, "nothing to undo", x.undo(), 6);
@@ -1118,28 +1017,20 @@ public final class PromiseTests {
 
     // ---- what is told
 
-    private static int ledOrMinus(HookGates x, int i) {
-        try {
-            return x.led(i);
-        } catch (NoSuchElementException none) {
-            return -9;
-        }
-    }
-
     private static void led() {
         HookGates x = told(FOUR);
         x.gate(99, 0);
-        due(54, "q", ledOrMinus(x, 0), 1);
-        due(54, "no more", ledOrMinus(x, 1), -9);
-        due(54, "-1", ledOrMinus(x, -1), -9);
+        due(54, "q", ledOrThrown(x, 0), 1);
+        due(54, "no more", ledOrThrown(x, 1), THROWN);
+        due(54, "-1", ledOrThrown(x, -1), THROWN);
         due(54, "the trouble of another call", x.trouble(), 1);
         x.take(0);
-        due(54, "p still has of c", ledOrMinus(x, 0), 1);
+        due(54, "p still has of c", ledOrThrown(x, 0), 1);
         HookGates y = told("land hooks 0 gust 0;person p;person q;person r;firm f q;gate a plain f worth 1 ahead");
-        due(54, "first", ledOrMinus(y, 0), 0);
-        due(54, "second", ledOrMinus(y, 1), 2);
-        due(54, "third", ledOrMinus(y, 2), -9);
-        due(54, "without a land", ledOrMinus(new HookGates(), 0), -9);
+        due(54, "first", ledOrThrown(y, 0), 0);
+        due(54, "second", ledOrThrown(y, 1), 2);
+        due(54, "third", ledOrThrown(y, 2), THROWN);
+        due(54, "without a land", ledOrThrown(new HookGates(), 0), THROWN);
     }
 
     private static void size() {
@@ -1170,7 +1061,7 @@ public final class PromiseTests {
         x.fault();
         x.where();
         x.feed(0, 0, 0, 0, 0);
-        ledOrMinus(x, 99);
+        ledOrThrown(x, 99);
         due(56, "of the latest that may be refused", x.trouble(), 1);
         due(56, "told again", x.trouble(), 1);
         x.judge();

@@ -9,6 +9,7 @@ public final class ActBoundTests extends Checks {
         take();
         turnOver();
         gust();
+        years();
         gustDraws();
         seed();
         undo();
@@ -174,6 +175,26 @@ public final class ActBoundTests extends Checks {
         });
     }
 
+    /** More calls than an object is promised for, so only that the bound stands where it is told. */
+    private static void years() {
+        sentence(49, "NONE: 3 (999 years went by)", HUNG.replace("gust 0", "gust 1"), x -> {
+            for (int year = 0; year < 998; year++) {
+                x.gust();
+            }
+            granted(x, "the 999th", x.gust(), 0);
+            due("year", x.size(9), 999);
+            int seed = x.size(10);
+            refused(x, "the thousandth", x.gust(), 3);
+            refused(x, "the thousandth", x.gust(), 3);
+            due("year", x.size(9), 999);
+            due("SEED", x.size(10), seed);
+            due("ACTS", x.size(11), 16);
+            granted(x, "undo", x.undo());
+            granted(x, "the 999th again", x.gust(), 0);
+            refused(x, "the thousandth", x.gust(), 3);
+        });
+    }
+
     private static void gustDraws() {
         sentence(49, "below as likely as it falls it does: 36 is not below 36", HUNG.replace("gust 0", "gust 36"), x -> {
             x.seed(65536);
@@ -313,6 +334,18 @@ public final class ActBoundTests extends Checks {
                 due("year", x.size(9), acts - kept);
             });
         }
+        for (int acts : new int[] {15, 16, 17, 18, 33, 100}) {
+            sentence(51, "16 are kept: hooks, of " + acts + " ACTS", LYING + ";gate b plain f worth 1 none", x -> {
+                for (int act = 0; act < acts; act++) {
+                    threeActs(x, act);
+                }
+                for (int left = acts - 1; left >= Math.max(0, acts - 16); left--) {
+                    due("undo", x.undo(), true);
+                    due("hook of " + left, x.gate(0, 3), left % 3);
+                }
+                denied(x, "undo", x.undo(), 6);
+            });
+        }
         sentence(51, "16 are kept: room again behind an UNDO", HUNG, x -> {
             for (int act = 0; act < 16; act++) {
                 x.turnOver(0);
@@ -324,6 +357,17 @@ public final class ActBoundTests extends Checks {
                 due("ACTS", x.size(11), 16);
             }
         });
+    }
+
+    /** Hung ahead, turned, taken, and round again. */
+    private static void threeActs(HookGates x, int act) {
+        if (act % 3 == 0) {
+            x.hang(0, false);
+        } else if (act % 3 == 1) {
+            x.turnOver(0);
+        } else {
+            x.take(0);
+        }
     }
 
     private static void undoWhat() {

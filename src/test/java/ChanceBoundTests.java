@@ -13,6 +13,7 @@ public final class ChanceBoundTests extends Checks {
         holdsRefused();
         holds();
         mean();
+        fromNow();
         keepsRefused();
         keeps();
         centuryRefused();
@@ -254,6 +255,29 @@ public final class ChanceBoundTests extends Checks {
             0, 7, 1);
     }
 
+    /** What is likely hangs on how hooks hang NOW, not on how they were told. */
+    private static void fromNow() {
+        sentence(36, "so many as he HAS: NOW", gusty(0, "plain f worth 5 ahead"), x -> {
+            dueRatio("the only one", x.power(0, false), x.power(0, true), 1, 1);
+            x.take(0);
+            dueRatio("nobody", x.power(0, false), x.power(0, true), 0, 1);
+        });
+        sentence(37, "each has so many as he HAS: NOW", gusty(0, "plain f worth 5 ahead"), x -> {
+            granted(x, "the only one", x.rule(), 1);
+            x.take(0);
+            granted(x, "nobody", x.rule(), -2);
+        });
+        sentence(42, "what a person HAS behind one year: from NOW", rich(50), x -> {
+            x.take(0);
+            dueRatio("mean", x.mean(0, false), x.mean(0, true), 495, 2);
+        });
+        sentence(43, "behind one year: from NOW", rich(50), x -> {
+            x.take(0);
+            dueRatio("keeps 495", x.keeps(0, 495, false), x.keeps(0, 495, true), 1, 32);
+            dueRatio("keeps 496", x.keeps(0, 496, false), x.keeps(0, 496, true), 0, 1);
+        });
+    }
+
     private static void keepsRefused() {
         sentence(43, "-1: 1 (no LAND)", x -> refused(x, "the upper WHOLE", x.keeps(0, 0, false), 1));
         sentence(43, "-1: 1 (no LAND)", x -> refused(x, "the lower WHOLE", x.keeps(0, 0, true), 1));
@@ -363,6 +387,11 @@ public final class ChanceBoundTests extends Checks {
                 due("behind " + n + " years", has[n], x.person(0, 0));
                 x.gust();
             }
+        });
+        sentence(44, "What a person HAS behind n years: from NOW", rich(0), x -> {
+            x.take(5);
+            granted(x, "0 years", x.century(0, 0, 0), 495);
+            granted(x, "60 years", x.century(0, 0, 60), 495);
         });
         sentence(44, "What a person HAS: nothing is done", rich(100), x -> {
             x.seed(7);

@@ -24,6 +24,7 @@ public final class NowBoundTests extends Checks {
         ground();
         hasIf();
         can();
+        now();
         finish();
     }
 
@@ -366,6 +367,41 @@ public final class NowBoundTests extends Checks {
         sentence(13, "else 0: the first and the last", ONE, x -> {
             granted(x, "can(0)", x.can(0), 0);
             granted(x, "can(3)", x.can(3), 0);
+        });
+    }
+
+    /** All of it is as hooks hang NOW, not as they were told. */
+    private static void now() {
+        String hung = ONE.replace("none", "ahead") + ";person q;firm g q;gate b odd g worth 9 none";
+        Calls taken = x -> {
+            x.take(0);
+            x.hang(1, true);
+        };
+        sentence(7, "what he HAS, OWNS: NOW", hung, x -> {
+            taken.on(x);
+            due("HAS", x.person(0, 0), 0);
+            due("OWNS", x.person(0, 1), 0);
+            due("OWNS alone", x.person(0, 2), 0);
+        });
+        sentence(8, "what all of it HAVE: NOW", hung, x -> {
+            due("HAVE", x.firm(0, 2), 5);
+            taken.on(x);
+            due("HAVE", x.firm(0, 2), 0);
+        });
+        sentence(9, "that nobody OWNS: NOW", hung, x -> {
+            due("commons", x.commons(), 0);
+            taken.on(x);
+            due("commons", x.commons(), 3);
+        });
+        sentence(10, "who HAS most: NOW", hung, x -> {
+            due("richest", x.richest(), 1);
+            taken.on(x);
+            due("richest", x.richest(), 0);
+        });
+        sentence(12, "What a person would HAVE: but for that gate as NOW", hung, x -> {
+            due("hasIf", x.hasIf(0, 1, 0), 5);
+            taken.on(x);
+            due("hasIf", x.hasIf(0, 1, 0), 0);
         });
     }
 }

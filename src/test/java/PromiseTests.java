@@ -38,7 +38,6 @@ public final class PromiseTests extends Checks {
         centuryBare();
         hangTakeTurn();
         gustSeed();
-        years();
         undo();
         images();
         led();
@@ -933,17 +932,6 @@ public final class PromiseTests extends Checks {
         due(49, "74 is below 75", z.gust(), 1);
         z = told("land hooks 0 gust 38;person p;firm f p;gate a loose f worth 5 ahead");
         due(49, "74 is below 76", z.gust(), 1);
-    }
-
-    /** More calls than an object is promised for, so only that the bound stands. */
-    private static void years() {
-        HookGates x = told(ONE);
-        for (int year = 0; year < 999; year++) {
-            x.gust();
-        }
-        due(49, "999 years", x.size(9), 999);
-        refused(49, x, "a thousandth", x.gust(), 3);
-        due(49, "999 years", x.size(9), 999);
     }
 
     private static void undo() {

@@ -178,6 +178,12 @@ public final class SearchBoundTests extends Checks {
             granted(x, "6", x.movesFor(0, 6), -2);
         });
         sentence(17, "-2: one of no firm", ONE.replace("hooks 0", "hooks 6") + ";person q", x -> granted(x, "1", x.movesFor(1, 1), -2));
+        sentence(17, "The fewest MOVES: by the last of all ways alone", withGates(withPeople("land hooks 6 gust 0", 2), 6, "plain f worth 2 none"), x -> {
+            granted(x, "6", x.movesFor(1, 6), 6);
+            granted(x, "7", x.movesFor(1, 7), -2);
+            granted(x, "by six MOVES", x.mostBy(1, 6), 6);
+            granted(x, "by five", x.mostBy(1, 5), 5);
+        });
         sentence(17, "The fewest MOVES: reckoned from NOW", RICH, x -> {
             x.hang(5, true);
             due("99", x.movesFor(0, 99), 0);
@@ -290,8 +296,8 @@ public final class SearchBoundTests extends Checks {
         sentence(21, "of like ones the first by gates (none, ahead, behind): one of six", RICH, x -> dueRow("coverAt", coverRow(x, 6), "000001"));
         sentence(21, "of like ones the first by gates (none, ahead, behind): behind, if only that will do",
             withGates(withPeople("land hooks 6 gust 0", 2), 6, "plain f worth 99 none"), x -> dueRow("coverAt", coverRow(x, 6), "000002"));
-        sentence(21, "of like ones the first by gates (none, ahead, behind): fewer hooks count ahead of that",
-            TWO.replace("hooks 0", "hooks 2") + ";gate a plain f worth 2 none;gate b plain f worth 1 none;gate c odd f worth 1 none", x -> {
+        sentence(21, "with fewest hooks hung: they count ahead of the first by gates",
+            TWO.replace("hooks 0", "hooks 2") + ";firm g p;firm h q;gate a plain f worth 2 none;gate b plain g worth 1 none;gate c plain h worth 1 none", x -> {
                 due("cover", x.cover(), 1);
                 dueRow("coverAt", coverRow(x, 3), "200");
             });
@@ -488,6 +494,15 @@ public final class SearchBoundTests extends Checks {
         String one = ONE + ";lost a;had p 0";
         sentence(29, "one of FITS is left in any way", one, x -> granted(x, "look", x.look(), 0));
         sentence(30, "one of FITS is left in any way", one, x -> granted(x, "lookLeaves", x.lookLeaves(), 1));
+        String[] hads = {"0", "8", "4"};
+        for (int hung = 0; hung <= 2; hung++) {
+            String had = TWO + ";gate a plain f worth 8 none;lost a;had p " + hads[hung];
+            int so = hung;
+            sentence(30, "it being told how it hung: by one of none, ahead, behind: " + hung, had, x -> {
+                due("how it hung", x.fitAt(0, 0), so);
+                granted(x, "lookLeaves", x.lookLeaves(), 1);
+            });
+        }
         // by a, b, c, d are left, told none, ahead, behind: 3 6 3, 9 3 0, 3 6 3, 4 4 4
         String worst = TWO + ";gate a plain f worth 1 none;gate b odd f worth 3 none;gate c odd f worth 2 none;gate d plain f worth 0 none;"
             + "lost a;lost b;lost c;lost d;had p 4";

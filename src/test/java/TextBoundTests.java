@@ -296,6 +296,37 @@ public final class TextBoundTests extends Checks {
             due("fairest", x.fairest(), 12);
             due("fits", x.fits(), 2);
         });
+        String more = SIX + ";wants a ga;alone b gb;lost ga;lost gb;had a 1;had b 2";
+        for (String ahead : new String[] {more + ";?", more + ";lost gb", more}) {
+            // a text that is told thrice has been wherever a LAND may be kept
+            Calls thrice = x -> {
+                tell(x, ahead);
+                tell(x, ahead);
+                tell(x, ahead);
+            };
+            String words = "are the LAND from now on (nothing is left of texts ahead: " + ahead.substring(more.length()) + ")";
+            sentenceBehind(thrice, words, x -> {
+                due("land", tell(x, ONE), 1);
+                int[] sizes = {0, 0, 1, 1, 1, 0, 0, 0, 0, 0, 0, 0, 0, 0};
+                for (int what = 0; what < sizes.length; what++) {
+                    due("size(" + what + ")", x.size(what), sizes[what]);
+                }
+                dueOfNothing(x, 1);
+                due("no other hook", x.cover(), -2);
+                due("no other hook", x.fairest(), 0);
+                due("no other hook", x.bare(0, 0), 0);
+            });
+            sentenceBehind(thrice, words, x -> {
+                due("land", tell(x, withGates("land hooks 0 gust 0;person p;firm f p", 6, "plain f worth 5 none")), 6);
+                dueOfNothing(x, 6);
+            });
+            sentenceBehind(thrice, words, x -> {
+                due("land", tell(x, withGates("land hooks 1 gust 0;person p;firm f p", 6, "plain f worth 5 none")), 6);
+                for (int move = 0; move < 12; move++) {
+                    due("no gate is guarded", x.can(move), 1);
+                }
+            });
+        }
         sentence(3, "are the LAND from now on (hooks as told again)", FOUR, x -> {
             x.take(0);
             x.turnOver(1);
@@ -305,6 +336,22 @@ public final class TextBoundTests extends Checks {
             due("ground", x.ground(), 1);
             due("reach", x.reach(), 27);
         });
+    }
+
+    /** A LAND without hooks, paths, wants and what is lost. */
+    private static void dueOfNothing(HookGates x, int gates) {
+        for (int g = 0; g < gates; g++) {
+            due("paths", x.gate(g, 5), 0);
+            due("hook", x.gate(g, 3), 0);
+        }
+        due("parts", x.parts(), gates);
+        due("ground", x.ground(), 0);
+        due("reach", x.reach(), 1);
+        due("stills", x.stills(), 1);
+        due("met", x.met(), 0);
+        due("errand", x.errand(), 0);
+        due("fits", x.fits(), 1);
+        due("judge", x.judge(), -2);
     }
 
     private static void sentenceBehind(Calls ahead, String words, Calls calls) {

@@ -55,7 +55,8 @@ public final class ActBoundTests extends Checks {
                 denied(x, "at the last", x.hang(5, behind), 5);
                 dueUntouched(x, 6, "111111", 6);
             });
-            sentence(46, "5 (one hangs there), 6 (none on the ground): 5 is told first", HUNG, x -> denied(x, "hang", x.hang(0, behind), 5));
+            sentence(46, "5 (one hangs there), 6 (none on the ground): 5 is told first", HUNG,
+                x -> denied(x, "hang", x.hang(0, behind), 5));
             sentence(46, "5 (one hangs there), 6 (guarded): 5 is told first", HUNG.replace("plain", "guarded"),
                 x -> denied(x, "hang", x.hang(0, behind), 5));
             sentence(46, "6 (none on the ground)", ONE, x -> {
@@ -99,7 +100,8 @@ public final class ActBoundTests extends Checks {
             denied(x, "take", x.take(0), 5);
             dueUntouched(x, 1, "0", 1);
         });
-        sentence(47, "5 (none hangs), 6 (guarded): 5 is told first", LYING.replace("plain", "guarded"), x -> denied(x, "take", x.take(0), 5));
+        sentence(47, "5 (none hangs), 6 (guarded): 5 is told first", LYING.replace("plain", "guarded"),
+            x -> denied(x, "take", x.take(0), 5));
         for (String hook : new String[] {"ahead", "behind"}) {
             sentence(47, "6 (guarded)", ONE.replace("plain", "guarded").replace("none", hook), x -> {
                 denied(x, "take", x.take(0), 6);
@@ -128,7 +130,8 @@ public final class ActBoundTests extends Checks {
             refused(x, "turnOver", x.turnOver(0), 5);
             dueUntouched(x, 1, "0", 1);
         });
-        sentence(48, "5 (none hangs), 6 (guarded): 5 is told first", LYING.replace("plain", "guarded"), x -> refused(x, "turnOver", x.turnOver(0), 5));
+        sentence(48, "5 (none hangs), 6 (guarded): 5 is told first", LYING.replace("plain", "guarded"),
+            x -> refused(x, "turnOver", x.turnOver(0), 5));
         sentence(48, "6 (guarded)", HUNG.replace("plain", "guarded"), x -> {
             refused(x, "turnOver", x.turnOver(0), 6);
             dueUntouched(x, 1, "1", 0);
@@ -530,19 +533,23 @@ public final class ActBoundTests extends Checks {
     private static void led() {
         for (int i : new int[] {Integer.MIN_VALUE, -1, 0, 1, Integer.MAX_VALUE}) {
             sentence(54, "NoSuchElementException if there is none such: no LAND: " + i, x -> due("led", ledOrThrown(x, i), THROWN));
-            sentence(54, "NoSuchElementException if there is none such: all have something: " + i, HUNG, x -> due("led", ledOrThrown(x, i), THROWN));
+            sentence(54, "NoSuchElementException if there is none such: all have something: " + i, HUNG,
+                x -> due("led", ledOrThrown(x, i), THROWN));
         }
         String five = withPeople("land hooks 0 gust 0", 5) + ";gate a plain f worth 9 none";
         for (int i : new int[] {Integer.MIN_VALUE, -1, 5, 6, Integer.MAX_VALUE}) {
-            sentence(54, "NoSuchElementException if there is none such: " + i + " of five", five, x -> due("led", ledOrThrown(x, i), THROWN));
+            sentence(54, "NoSuchElementException if there is none such: " + i + " of five", five,
+                x -> due("led", ledOrThrown(x, i), THROWN));
         }
         sentence(54, "The i-th person, by numbers, who HAS nothing: all five", five, x -> {
             for (int i = 0; i < 5; i++) {
                 due("led", ledOrThrown(x, i), i);
             }
         });
-        sentence(54, "who HAS nothing: 4 by 5 is nothing", five.replace("worth 9 none", "worth 4 behind"), x -> due("led(4)", ledOrThrown(x, 4), 4));
-        sentence(54, "who HAS nothing: 5 by 5 is something", five.replace("worth 9 none", "worth 5 behind"), x -> due("led(0)", ledOrThrown(x, 0), THROWN));
+        sentence(54, "who HAS nothing: 4 by 5 is nothing", five.replace("worth 9 none", "worth 4 behind"),
+            x -> due("led(4)", ledOrThrown(x, 4), 4));
+        sentence(54, "who HAS nothing: 5 by 5 is something", five.replace("worth 9 none", "worth 5 behind"),
+            x -> due("led(0)", ledOrThrown(x, 0), THROWN));
         sentence(54, "The i-th person, by numbers: those between who have something are left out",
             "land hooks 0 gust 0;person p;person q;person r;person s;person t;firm f q;firm g s;gate a odd f worth 1 none;gate b odd g worth 1 none", x -> {
                 due("led(0)", ledOrThrown(x, 0), 0);

@@ -1,6 +1,7 @@
 import java.nio.charset.StandardCharsets;
 import java.util.Arrays;
 import java.util.NoSuchElementException;
+import java.util.function.IntUnaryOperator;
 
 /** What the tests by promise share: lands, texts that are fed, answers that are due. */
 abstract class Checks {
@@ -161,13 +162,18 @@ abstract class Checks {
         return x;
     }
 
-    /** How the hooks hang NOW, a digit a gate. */
-    static String hungs(HookGates x, int gates) {
+    /** Answers behind one another, as many as there are gates or the like. */
+    static String row(int answers, IntUnaryOperator call) {
         StringBuilder row = new StringBuilder();
-        for (int g = 0; g < gates; g++) {
-            row.append(x.gate(g, 3));
+        for (int i = 0; i < answers; i++) {
+            row.append(call.applyAsInt(i));
         }
         return row.toString();
+    }
+
+    /** How the hooks hang NOW, a digit a gate. */
+    static String hungs(HookGates x, int gates) {
+        return row(gates, g -> x.gate(g, 3));
     }
 
     static int ledOrThrown(HookGates x, int i) {

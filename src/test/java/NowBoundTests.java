@@ -91,30 +91,22 @@ public final class NowBoundTests extends Checks {
             withGates(withPeople("land hooks 0 gust 0", 1), 6, "plain f worth 99 none"), x -> due("nothing", x.person(0, 0), 0));
     }
 
-    private static String canRow(HookGates x, int gates) {
-        StringBuilder row = new StringBuilder();
-        for (int move = 0; move < 4 * gates; move++) {
-            row.append(x.can(move));
-        }
-        return row.toString();
-    }
-
     private static void moves() {
         sentence(13, "numbered by gates, then: one gate, a hook on the ground", ONE.replace("hooks 0", "hooks 1"),
-            x -> dueRow("can", canRow(x, 1), "1100"));
-        sentence(13, "HANG: one lies on the ground (none does)", ONE, x -> dueRow("can", canRow(x, 1), "0000"));
+            x -> dueRow("can", row(4, x::can), "1100"));
+        sentence(13, "HANG: one lies on the ground (none does)", ONE, x -> dueRow("can", row(4, x::can), "0000"));
         sentence(13, "HANG: no hook hangs there (one does)", ONE.replace("hooks 0", "hooks 1").replace("none", "ahead"),
-            x -> dueRow("can", canRow(x, 1), "0011"));
-        sentence(13, "TURN: one hangs, ahead or behind", ONE.replace("none", "behind"), x -> dueRow("can", canRow(x, 1), "0011"));
+            x -> dueRow("can", row(4, x::can), "0011"));
+        sentence(13, "TURN: one hangs, ahead or behind", ONE.replace("none", "behind"), x -> dueRow("can", row(4, x::can), "0011"));
         for (String hook : new String[] {"none", "ahead", "behind"}) {
             sentence(13, "At a guarded gate none can be done: " + hook,
                 ONE.replace("hooks 0", "hooks 6").replace("plain", "guarded").replace("none", hook),
-                x -> dueRow("can", canRow(x, 1), "0000"));
+                x -> dueRow("can", row(4, x::can), "0000"));
         }
         sentence(13, "so many more as there are gates, twice so many, three times so many: six gates",
             "land hooks 1 gust 0;person p;firm f p;gate a plain f worth 1 none;gate b odd f worth 1 ahead;gate c loose f worth 1 behind;"
                 + "gate d guarded f worth 1 ahead;gate e guarded f worth 1 none;gate g plain f worth 1 none",
-            x -> dueRow("can", canRow(x, 6), "100001" + "100001" + "011000" + "011000"));
+            x -> dueRow("can", row(24, x::can), "100001" + "100001" + "011000" + "011000"));
     }
 
     private static void movesDone() {
@@ -122,12 +114,12 @@ public final class NowBoundTests extends Checks {
             granted(x, "hang", x.hang(0, false));
             due("how it hangs", x.gate(0, 3), 1);
             due("ground", x.ground(), 0);
-            dueRow("can", canRow(x, 1), "0011");
+            dueRow("can", row(4, x::can), "0011");
         });
         sentence(13, "TAKE it off: it lies on the ground then", ONE.replace("none", "ahead"), x -> {
             granted(x, "take", x.take(0));
             due("ground", x.ground(), 1);
-            dueRow("can", canRow(x, 1), "1100");
+            dueRow("can", row(4, x::can), "1100");
         });
         sentence(13, "TURN: the other way then (and round again)", ONE.replace("none", "ahead"), x -> {
             granted(x, "turnOver", x.turnOver(0), 2);

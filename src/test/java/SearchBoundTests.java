@@ -140,8 +140,10 @@ public final class SearchBoundTests extends Checks {
         sentence(16, "Wants that are met: all four", with(ONE, "ahead") + ";wants p a;alone p a;wants p a;alone p a",
             x -> granted(x, "met", x.met(), 15));
         String two = TWO + ";gate a plain f worth 1 ahead";
-        sentence(16, "Wants, as told: the first alone", two + ";alone p a;alone q a;wants q a;wants q a", x -> granted(x, "met", x.met(), 1));
-        sentence(16, "Wants, as told: the last alone", two + ";wants q a;alone q a;wants q a;wants p a", x -> granted(x, "met", x.met(), 8));
+        sentence(16, "Wants, as told: the first alone", two + ";alone p a;alone q a;wants q a;wants q a",
+            x -> granted(x, "met", x.met(), 1));
+        sentence(16, "Wants, as told: the last alone", two + ";wants q a;alone q a;wants q a;wants p a",
+            x -> granted(x, "met", x.met(), 8));
         sentence(16, "met NOW: among OWNERS, not the only one", two + ";wants p a;alone p a;wants q a;alone q a", x -> {
             due("ahead", x.met(), 3);
             x.turnOver(0);
@@ -227,7 +229,8 @@ public final class SearchBoundTests extends Checks {
         sentence(19, "How many ways: the most", RICH, x -> granted(x, "reach", x.reach(), 729));
         sentence(19, "How many ways: the most, all hooks hang", with(RICH.replace("hooks 6", "hooks 0"), "behind"),
             x -> granted(x, "reach", x.reach(), 729));
-        sentence(19, "How many ways: one hook fewer than gates", RICH.replace("hooks 6", "hooks 5"), x -> granted(x, "reach", x.reach(), 665));
+        sentence(19, "How many ways: one hook fewer than gates", RICH.replace("hooks 6", "hooks 5"),
+            x -> granted(x, "reach", x.reach(), 665));
         sentence(19, "How many ways: one hook", RICH.replace("hooks 6", "hooks 1"), x -> granted(x, "reach", x.reach(), 13));
         sentence(19, "How many ways: behind any ACTS so many", RICH.replace("hooks 6", "hooks 1"), x -> {
             x.hang(5, true);
@@ -259,27 +262,20 @@ public final class SearchBoundTests extends Checks {
             + "gate e guarded f worth 0 ahead;gate k guarded f worth 0 behind";
         sentence(20, "how many hooks are hung (guarded ones, too): all six, as many as there are", most, x -> {
             granted(x, "cover", x.cover(), 6);
-            dueRow("coverAt", coverRow(x, 6), "111212");
+            dueRow("coverAt", row(6, x::coverAt), "111212");
         });
         sentence(20, "as many hooks as there are, on gates and the ground, at most: one too few", most.replace("hooks 4", "hooks 3"),
             x -> granted(x, "cover", x.cover(), -2));
         sentence(20, "guarded ones as NOW: their hooks can't be hung elsewhere", most.replace("hooks 4", "hooks 2"),
             x -> granted(x, "cover", x.cover(), -2));
         sentence(20, "on gates and the ground: one of each", TWO.replace("hooks 0", "hooks 1").replace("p,q", "p;firm g q")
-            + ";gate a plain f worth 1 none;gate b plain g worth 1 none;gate c plain g worth 0 behind", x -> granted(x, "cover", x.cover(), 2));
+            + ";gate a plain f worth 1 none;gate b plain g worth 1 none;gate c plain g worth 0 behind",
+                x -> granted(x, "cover", x.cover(), 2));
         sentence(20, "COVER: whatever hangs NOW", with(ONE, "ahead"), x -> {
             x.take(0);
             granted(x, "cover", x.cover(), 1);
             due("coverAt", x.coverAt(0), 1);
         });
-    }
-
-    private static String coverRow(HookGates x, int gates) {
-        StringBuilder row = new StringBuilder();
-        for (int g = 0; g < gates; g++) {
-            row.append(x.coverAt(g));
-        }
-        return row.toString();
     }
 
     private static void coverAt() {
@@ -293,17 +289,19 @@ public final class SearchBoundTests extends Checks {
                 granted(x, "coverAt", x.coverAt(g), -2);
             }
         });
-        sentence(21, "of like ones the first by gates (none, ahead, behind): one of six", RICH, x -> dueRow("coverAt", coverRow(x, 6), "000001"));
+        sentence(21, "of like ones the first by gates (none, ahead, behind): one of six", RICH,
+            x -> dueRow("coverAt", row(6, x::coverAt), "000001"));
         sentence(21, "of like ones the first by gates (none, ahead, behind): behind, if only that will do",
-            withGates(withPeople("land hooks 6 gust 0", 2), 6, "plain f worth 99 none"), x -> dueRow("coverAt", coverRow(x, 6), "000002"));
+            withGates(withPeople("land hooks 6 gust 0", 2), 6, "plain f worth 99 none"),
+                x -> dueRow("coverAt", row(6, x::coverAt), "000002"));
         sentence(21, "with fewest hooks hung: they count ahead of the first by gates",
             TWO.replace("hooks 0", "hooks 2") + ";firm g p;firm h q;gate a plain f worth 2 none;gate b plain g worth 1 none;gate c plain h worth 1 none", x -> {
                 due("cover", x.cover(), 1);
-                dueRow("coverAt", coverRow(x, 3), "200");
+                dueRow("coverAt", row(3, x::coverAt), "200");
             });
         sentence(21, "How a gate's hook hangs by it: a guarded one as NOW", ONE.replace("plain", "odd") + ";gate b guarded f worth 1 behind", x -> {
             due("cover", x.cover(), 1);
-            dueRow("coverAt", coverRow(x, 2), "02");
+            dueRow("coverAt", row(2, x::coverAt), "02");
         });
     }
 
@@ -313,7 +311,8 @@ public final class SearchBoundTests extends Checks {
         sentence(22, "How many ways: the fewest, all guarded", with(RICH, "behind").replace("plain", "guarded"),
             x -> granted(x, "stills", x.stills(), 1));
         sentence(22, "How many ways: the most", RICH, x -> granted(x, "stills", x.stills(), 729));
-        sentence(22, "as many hooks as there are at most: one too few", RICH.replace("hooks 6", "hooks 5"), x -> granted(x, "stills", x.stills(), 665));
+        sentence(22, "as many hooks as there are at most: one too few", RICH.replace("hooks 6", "hooks 5"),
+            x -> granted(x, "stills", x.stills(), 665));
         sentence(22, "no OWNER would HAVE more: a plain one behind", TWO.replace("hooks 0", "hooks 1") + ";gate a plain f worth 2 none",
             x -> granted(x, "none, ahead", x.stills(), 2));
         sentence(22, "no OWNER would HAVE more: an odd one ahead", TWO.replace("hooks 0", "hooks 1") + ";gate a odd f worth 2 none",
@@ -333,8 +332,10 @@ public final class SearchBoundTests extends Checks {
         sentence(23, "would HAVE more: so much is not more", with(ONE, "behind"), x -> granted(x, "isStill", x.isStill(), 1));
         sentence(23, "were just that one TURNed: the head would HAVE one more", TWO + ";gate a plain f worth 1 behind",
             x -> granted(x, "isStill", x.isStill(), 0));
-        sentence(23, "or TAKEn: the head would HAVE one more", TWO + ";gate a odd f worth 1 ahead", x -> granted(x, "isStill", x.isStill(), 0));
-        sentence(23, "no OWNER: of a gate that is nobody's", TWO + ";gate a odd f worth 99 behind", x -> granted(x, "isStill", x.isStill(), 1));
+        sentence(23, "or TAKEn: the head would HAVE one more", TWO + ";gate a odd f worth 1 ahead",
+            x -> granted(x, "isStill", x.isStill(), 0));
+        sentence(23, "no OWNER: of a gate that is nobody's", TWO + ";gate a odd f worth 99 behind",
+            x -> granted(x, "isStill", x.isStill(), 1));
         sentence(23, "no OWNER: another man of the firm would have more", TWO + ";gate a plain f worth 99 ahead",
             x -> granted(x, "isStill", x.isStill(), 1));
         for (String kind : new String[] {"plain", "loose"}) {
@@ -357,7 +358,8 @@ public final class SearchBoundTests extends Checks {
         sentence(24, "who HAS least HAS most: nothing", ONE, x -> granted(x, "fairest", x.fairest(), 0));
         sentence(24, "who HAS least HAS most: one of no firm HAS nothing", RICH + ";person q", x -> granted(x, "fairest", x.fairest(), 0));
         sentence(24, "who HAS least HAS most: the most there is", RICH, x -> granted(x, "fairest", x.fairest(), 594));
-        sentence(24, "(likewise) as many hooks as there are at most", RICH.replace("hooks 6", "hooks 5"), x -> granted(x, "fairest", x.fairest(), 495));
+        sentence(24, "(likewise) as many hooks as there are at most", RICH.replace("hooks 6", "hooks 5"),
+            x -> granted(x, "fairest", x.fairest(), 495));
         sentence(24, "(likewise) guarded ones as NOW", RICH.replace("plain", "guarded"), x -> granted(x, "fairest", x.fairest(), 0));
         sentence(24, "who HAS least: of five, downwards", withGates(withPeople("land hooks 6 gust 0", 5), 6, "plain f worth 9 none"),
             x -> granted(x, "six times 9 by 5", x.fairest(), 6));
@@ -367,27 +369,20 @@ public final class SearchBoundTests extends Checks {
         });
     }
 
-    private static String fairRow(HookGates x, int gates) {
-        StringBuilder row = new StringBuilder();
-        for (int g = 0; g < gates; g++) {
-            row.append(x.fairAt(g));
-        }
-        return row.toString();
-    }
-
     private static void fairAt() {
         sentence(25, "NONE: 1 (no LAND)", x -> refused(x, "fairAt(0)", x.fairAt(0), 1));
         for (int g : NO_GATES_OF_SIX) {
             sentence(25, "NONE: 1 (a gate that there isn't: " + g + ")", RICH, x -> refused(x, "fairAt", x.fairAt(g), 1));
         }
         sentence(25, "the first such, by gates: of all ways, as all are alike", with(RICH, "behind").replace("worth 99", "worth 0"),
-            x -> dueRow("fairAt", fairRow(x, 6), "000000"));
-        sentence(25, "the first such, by gates: ahead, not behind", RICH, x -> dueRow("fairAt", fairRow(x, 6), "111111"));
-        sentence(25, "the first such, by gates: the last five", RICH.replace("hooks 6", "hooks 5"), x -> dueRow("fairAt", fairRow(x, 6), "011111"));
+            x -> dueRow("fairAt", row(6, x::fairAt), "000000"));
+        sentence(25, "the first such, by gates: ahead, not behind", RICH, x -> dueRow("fairAt", row(6, x::fairAt), "111111"));
+        sentence(25, "the first such, by gates: the last five", RICH.replace("hooks 6", "hooks 5"),
+            x -> dueRow("fairAt", row(6, x::fairAt), "011111"));
         sentence(25, "the first such, by gates: a guarded one as NOW", with(ONE, "behind").replace("plain", "guarded"),
             x -> granted(x, "fairAt", x.fairAt(0), 2));
         sentence(25, "by which who HAS least HAS most: behind", withGates(withPeople("land hooks 6 gust 0", 2), 2, "plain f worth 2 none"),
-            x -> dueRow("fairAt", fairRow(x, 2), "22"));
+            x -> dueRow("fairAt", row(2, x::fairAt), "22"));
     }
 
     // ---- lost ones
@@ -395,7 +390,8 @@ public final class SearchBoundTests extends Checks {
     private static void fits() {
         sentence(26, "NONE: 1 (no LAND)", x -> refused(x, "fits", x.fits(), 1));
         sentence(26, "ways the lost ones may have hung: nothing lost, nothing had", ONE, x -> granted(x, "fits", x.fits(), 1));
-        sentence(26, "ways the lost ones may have hung: nothing lost, had as told", with(ONE, "ahead") + ";had p 5", x -> granted(x, "fits", x.fits(), 1));
+        sentence(26, "ways the lost ones may have hung: nothing lost, had as told", with(ONE, "ahead") + ";had p 5",
+            x -> granted(x, "fits", x.fits(), 1));
         sentence(26, "each who had something HAS so much: one less", with(ONE, "ahead") + ";had p 4", x -> granted(x, "fits", x.fits(), 0));
         sentence(26, "each who had something HAS so much: one more", with(ONE, "ahead") + ";had p 6", x -> granted(x, "fits", x.fits(), 0));
         sentence(26, "each who had something: 0 is so much, too", ONE + ";lost a;had p 0", x -> granted(x, "none", x.fits(), 1));
@@ -403,11 +399,14 @@ public final class SearchBoundTests extends Checks {
         sentence(26, "each who had something: the second one too", TWO + ";gate a plain f worth 8 none;lost a;had p 4;had q 0",
             x -> granted(x, "fits", x.fits(), 0));
         sentence(26, "(none, ahead, behind)", ONE + ";lost a", x -> granted(x, "fits", x.fits(), 3));
-        sentence(26, "ways the lost ones may have hung: the most", RICH + ";lost ga;lost gb;lost gc;lost gf", x -> granted(x, "fits", x.fits(), 81));
+        sentence(26, "ways the lost ones may have hung: the most", RICH + ";lost ga;lost gb;lost gc;lost gf",
+            x -> granted(x, "fits", x.fits(), 81));
         sentence(26, "whatever hooks there are", RICH.replace("hooks 6", "hooks 0") + ";lost ga;lost gb;lost gc;lost gf;had pa 396",
             x -> granted(x, "ahead or behind, four times", x.fits(), 16));
-        sentence(26, "the others as told", with(ONE, "ahead") + ";gate b plain f worth 1 none;lost b;had p 6", x -> granted(x, "fits", x.fits(), 2));
-        sentence(26, "at first: guarded ones, too", ONE.replace("plain", "guarded") + ";lost a;had p 5", x -> granted(x, "fits", x.fits(), 2));
+        sentence(26, "the others as told", with(ONE, "ahead") + ";gate b plain f worth 1 none;lost b;had p 6",
+            x -> granted(x, "fits", x.fits(), 2));
+        sentence(26, "at first: guarded ones, too", ONE.replace("plain", "guarded") + ";lost a;had p 5",
+            x -> granted(x, "fits", x.fits(), 2));
         sentence(26, "at first: not NOW", with(ONE, "ahead") + ";had p 5", x -> {
             x.take(0);
             granted(x, "fits", x.fits(), 1);
@@ -425,29 +424,21 @@ public final class SearchBoundTests extends Checks {
         }
         sentence(27, "NONE: 1 (i of no FITS)", ONE + ";lost a;had p 1", x -> refused(x, "fitAt(0, 0)", x.fitAt(0, 0), 1));
         sentence(27, "NONE: 1 (k, though there is one of FITS: nothing lost)", ONE, x -> refused(x, "fitAt(0, 0)", x.fitAt(0, 0), 1));
-        sentence(27, "by the i-th: the first", most, x -> dueRow("fitAt", fitRow(x, 0, 4), "0000"));
-        sentence(27, "by the i-th: the last", most, x -> dueRow("fitAt", fitRow(x, 80, 4), "2222"));
+        sentence(27, "by the i-th: the first", most, x -> dueRow("fitAt", row(4, k -> x.fitAt(0, k)), "0000"));
+        sentence(27, "by the i-th: the last", most, x -> dueRow("fitAt", row(4, k -> x.fitAt(80, k)), "2222"));
         sentence(27, "the first lost one counts most, the last one least", most, x -> {
-            dueRow("second", fitRow(x, 1, 4), "0001");
-            dueRow("fourth", fitRow(x, 3, 4), "0010");
-            dueRow("28th", fitRow(x, 27, 4), "1000");
-            dueRow("80th", fitRow(x, 79, 4), "2221");
+            dueRow("second", row(4, k -> x.fitAt(1, k)), "0001");
+            dueRow("fourth", row(4, k -> x.fitAt(3, k)), "0010");
+            dueRow("28th", row(4, k -> x.fitAt(27, k)), "1000");
+            dueRow("80th", row(4, k -> x.fitAt(79, k)), "2221");
         });
         sentence(27, "the k-th lost one, as it was told to be", ONE + ";gate b plain f worth 9 none;lost b;lost a;had p 9", x -> {
-            dueRow("first", fitRow(x, 0, 2), "10");
-            dueRow("second", fitRow(x, 1, 2), "20");
+            dueRow("first", row(2, k -> x.fitAt(0, k)), "10");
+            dueRow("second", row(2, k -> x.fitAt(1, k)), "20");
             refused(x, "third", x.fitAt(2, 0), 1);
         });
         sentence(27, "How the k-th lost one hung: none", ONE + ";lost a;had p 0",
             x -> granted(x, "none", x.fitAt(0, 0), 0));
-    }
-
-    private static String fitRow(HookGates x, int i, int lost) {
-        StringBuilder row = new StringBuilder();
-        for (int k = 0; k < lost; k++) {
-            row.append(x.fitAt(i, k));
-        }
-        return row.toString();
     }
 
     private static void hungBy() {
@@ -507,7 +498,8 @@ public final class SearchBoundTests extends Checks {
         String worst = TWO + ";gate a plain f worth 1 none;gate b odd f worth 3 none;gate c odd f worth 2 none;gate d plain f worth 0 none;"
             + "lost a;lost b;lost c;lost d;had p 4";
         sentence(29, "at most fewest: what is left by chance at best doesn't count", worst, x -> granted(x, "look", x.look(), 3));
-        sentence(30, "at most fewest: what is left by chance at best doesn't count", worst, x -> granted(x, "lookLeaves", x.lookLeaves(), 4));
+        sentence(30, "at most fewest: what is left by chance at best doesn't count", worst,
+            x -> granted(x, "lookLeaves", x.lookLeaves(), 4));
         // 8 0 0, 0 4 4, 4 2 2, 4 2 2
         String mean = TWO + ";firm g q;gate a odd f worth 2 none;gate b plain g worth 1 none;gate c plain g worth 3 none;"
             + "gate d plain g worth 3 none;lost a;lost b;lost c;lost d;had p 2;had q 4";
@@ -522,7 +514,8 @@ public final class SearchBoundTests extends Checks {
         sentence(31, "who doesn't HAVE that: one less, one more", with(ONE, "ahead") + ";had p 4", x -> granted(x, "judge", x.judge(), 0));
         sentence(31, "who doesn't HAVE that: one less, one more", with(ONE, "ahead") + ";had p 6", x -> granted(x, "judge", x.judge(), 0));
         sentence(31, "The first who had something: 0 is so much, too", ONE + ";had p 0", x -> granted(x, "judge", x.judge(), -2));
-        sentence(31, "The first who had something: 0 is so much, too", with(ONE, "ahead") + ";had p 0", x -> granted(x, "judge", x.judge(), 0));
+        sentence(31, "The first who had something: 0 is so much, too", with(ONE, "ahead") + ";had p 0",
+            x -> granted(x, "judge", x.judge(), 0));
         sentence(31, "The first, by numbers: the last one alone", SIX + ";had a 101;had b 52;had c 12;had d 12;had e 599",
             x -> granted(x, "judge", x.judge(), 4));
         sentence(31, "The first, by numbers: not as told", SIX + ";had e 599;had b 599;had d 599", x -> granted(x, "judge", x.judge(), 1));
@@ -574,10 +567,12 @@ public final class SearchBoundTests extends Checks {
         sentence(33, "NONE: 1 (no LAND)", x -> refused(x, "sentries", x.sentries(), 1));
         sentence(33, "The fewest gates: one of one", ONE, x -> granted(x, "sentries", x.sentries(), 1));
         sentence(33, "The fewest gates: all, without paths", RICH, x -> granted(x, "sentries", x.sentries(), 63));
-        sentence(33, "each gate is one of them or has a path to one: all but one", RICH + ";path ge gf", x -> granted(x, "sentries", x.sentries(), 31));
+        sentence(33, "each gate is one of them or has a path to one: all but one", RICH + ";path ge gf",
+            x -> granted(x, "sentries", x.sentries(), 31));
         sentence(33, "each gate is one of them or has a path to one: one for all, the last gate",
             RICH + ";path gf ga;path gb gf;path gf gc;path gd gf;path gf ge", x -> granted(x, "sentries", x.sentries(), 32));
-        sentence(33, "of like ones the least bits: of two", ONE + ";gate b odd f worth 1 none;path a b", x -> granted(x, "sentries", x.sentries(), 1));
+        sentence(33, "of like ones the least bits: of two", ONE + ";gate b odd f worth 1 none;path a b",
+            x -> granted(x, "sentries", x.sentries(), 1));
         sentence(33, "of like ones the least bits: round a ring", ROW + ";path gf ga", x -> granted(x, "sentries", x.sentries(), 9));
         sentence(33, "The fewest gates: fewer count ahead of least bits", ROW, x -> granted(x, "sentries", x.sentries(), 18));
     }

@@ -23,7 +23,7 @@ public final class ActBoundTests extends Checks {
         troubleZero();
         troubleKept();
         troubleNumbers();
-        finish();
+        finish(46, 56);
     }
 
     private static String rich(int hooks, int gust, String hook) {

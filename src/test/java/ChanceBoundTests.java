@@ -20,7 +20,7 @@ public final class ChanceBoundTests extends Checks {
         century();
         bareRefused();
         bare();
-        finish();
+        finish(36, 45);
     }
 
     private static String gusty(int gust, String gate) {

@@ -29,6 +29,7 @@ abstract class Checks {
         void on(HookGates x);
     }
 
+    private static final boolean[] HAS_SENTENCES = new boolean[57];
     private static int sentences;
     private static int checks;
     private static int wrong;
@@ -40,6 +41,7 @@ abstract class Checks {
         promiseAtHand = promise;
         wordsAtHand = words;
         sentences++;
+        HAS_SENTENCES[promise] = true;
         calls.on(new HookGates());
     }
 
@@ -51,11 +53,20 @@ abstract class Checks {
         });
     }
 
+    /** Tells how the checks went; the program ends with 1 if one went wrong. */
     static void finish() {
         System.out.println((sentences > 0 ? sentences + " sentences, " : "") + checks + " checks, " + wrong + " wrong");
         if (wrong != 0) {
             System.exit(1);
         }
+    }
+
+    /** Likewise, if each of these promises has had a sentence. */
+    static void finish(int firstPromise, int lastPromise) {
+        for (int promise = firstPromise; promise <= lastPromise; promise++) {
+            due(promise, "it has a sentence", HAS_SENTENCES[promise], true);
+        }
+        finish();
     }
 
     // ---- answers
@@ -180,7 +191,7 @@ abstract class Checks {
         try {
             return x.led(i);
         } catch (NoSuchElementException none) {
-            return THROWN;
+            return none.getClass() == NoSuchElementException.class ? THROWN : THROWN - 1;
         }
     }
 

@@ -25,7 +25,7 @@ public final class NowBoundTests extends Checks {
         hasIf();
         can();
         now();
-        finish();
+        finish(6, 13);
     }
 
     // ---- definition II

@@ -32,7 +32,7 @@ public final class SearchBoundTests extends Checks {
         sentries();
         parts();
         estate();
-        finish();
+        finish(14, 35);
     }
 
     private static String with(String text, String hook) {
@@ -111,7 +111,7 @@ public final class SearchBoundTests extends Checks {
         int[] row = {15, 0, 16, 1, 17, 2};
         for (int i = 0; i < 6; i++) {
             int at = i;
-            sentence(15, "The i-th MOVE of it: the " + i + "th of six", FAR, x -> granted(x, "errandAt", x.errandAt(at), row[at]));
+            sentence(15, "The i-th MOVE of it: " + i + " of six", FAR, x -> granted(x, "errandAt", x.errandAt(at), row[at]));
         }
         for (int i : NO_GATES_OF_SIX) {
             sentence(15, "NONE: 1 (i, too): " + i + " of six", FAR, x -> refused(x, "errandAt", x.errandAt(i), 1));

@@ -40,7 +40,7 @@ public final class TextBoundTests extends Checks {
         boundsFaults();
         manyFaults();
         lacksFaults();
-        finish();
+        finish(1, 5);
     }
 
     // ---- texts by their FAULTS
@@ -98,6 +98,24 @@ public final class TextBoundTests extends Checks {
         sentence(1, "No LAND.", x -> due("fault", x.fault(), 0));
         sentence(1, "No LAND.", x -> due("where", x.where(), NONE));
         sentence(1, "No LAND.", x -> refused(x, "ground", x.ground(), 1));
+        sentence(1, "No LAND (though other objects have one)", x -> {
+            HookGates other = told(FOUR);
+            other.gust();
+            other.gate(-1, 0);
+            feedBlanks(other);
+            HookGates third = new HookGates();
+            for (HookGates fresh : new HookGates[] {x, third}) {
+                due("trouble", fresh.trouble(), 0);
+                refused(fresh, "ground", fresh.ground(), 1);
+                for (int what = 0; what <= 13; what++) {
+                    due("size(" + what + ")", fresh.size(what), 0);
+                }
+            }
+            tell(x, ONE);
+            due("the other LAND stays", other.size(4), 4);
+            due("the other TAPE stays", other.size(13), 20);
+            due("the other TROUBLE stays", other.trouble(), 1);
+        });
         sentence(1, "NONE = -1", x -> due("NONE", HookGates.NONE, -1));
         sentence(1, "An object is used for at most 512 calls", x -> {
             // a size and four feeds and a land, then 504 gusts, what they come to, and the 512th
@@ -195,6 +213,16 @@ public final class TextBoundTests extends Checks {
                 due("fault", x.fault(), 0);
                 due("bytes", x.size(13), 80);
                 granted(x, "land of the TAPE that stayed", x.land(80), 1);
+            });
+        }
+        for (int n : new int[] {-1, 1}) {
+            sentence(3, "NONE: 2 (nor is there another LAND then)", FOUR, x -> {
+                x.take(0);
+                x.image();
+                refused(x, "land(" + n + ")", x.land(n), 2);
+                dueRow("hooks", hungs(x, 4), "0220");
+                due("ACTS", x.size(11), 1);
+                due("IMAGES", x.size(12), 1);
             });
         }
         for (int n : new int[] {-1, 1, 20, 900}) {

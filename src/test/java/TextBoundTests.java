@@ -258,6 +258,18 @@ public final class TextBoundTests extends Checks {
             refused(x, "land", x.land(ONE.length() - 1), 4);
             due("where", x.where(), ONE.lastIndexOf("none"));
         });
+        sentence(3, "The first n bytes of THE TAPE (a WHOLE ends there)", x -> {
+            String text = ONE.replace("none", "ahead") + ";had p 5";
+            feedText(x, text + "9");
+            granted(x, "land", x.land(text.length()), 1);
+            due("he had 5, not 59", x.judge(), -2);
+        });
+        sentence(3, "The first n bytes of THE TAPE (a NAME ends there)", x -> {
+            String text = ONE + ";person qx;wants p a;lost a";
+            feedText(x, text + "b");
+            granted(x, "land", x.land(text.length()), 1);
+            due("lost", x.size(7), 1);
+        });
         sentence(3, "it is empty then", x -> {
             tell(x, ONE);
             due("bytes", x.size(13), 0);

@@ -367,6 +367,27 @@ public final class TextBoundTests extends Checks {
                 }
             });
         }
+        String odd = withGates(withPeople("land hooks 6 gust 50", 5) + ";firm g pa;firm h pa;firm i pa", 6, "odd f worth 9 none");
+        Calls wide = x -> {
+            tell(x, odd);
+            tell(x, odd);
+            tell(x, ONE);
+        };
+        sentenceBehind(wide, "are the LAND from now on (nothing is left of gates and firms that were more)", x -> {
+            int[] dues = {0, 0, 0, 1};
+            for (int what = 0; what < dues.length; what++) {
+                due("person(0, " + what + ")", x.person(0, what), dues[what]);
+            }
+            due("firm", x.firm(0, 2), 0);
+            due("commons", x.commons(), 1);
+            due("estate", x.estate(0, 0), 0);
+            due("mostBy", x.mostBy(0, 20), 0);
+            due("rule", x.rule(), -2);
+            due("led", ledOrThrown(x, 0), 0);
+            due("gust", x.gust(), 0);
+            dueRatio("mean", x.mean(0, false), x.mean(0, true), 0, 1);
+            dueRatio("keeps", x.keeps(0, 1, false), x.keeps(0, 1, true), 0, 1);
+        });
         sentence(3, "are the LAND from now on (hooks as told again)", FOUR, x -> {
             x.take(0);
             x.turnOver(1);

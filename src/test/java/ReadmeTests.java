@@ -1,8 +1,5 @@
-import java.io.ByteArrayOutputStream;
+import java.io.File;
 import java.io.IOException;
-import java.io.PrintStream;
-import java.net.URL;
-import java.net.URLClassLoader;
 import java.nio.charset.StandardCharsets;
 import java.nio.file.Files;
 import java.nio.file.Path;
@@ -12,7 +9,6 @@ import java.util.List;
 import java.util.regex.Matcher;
 import java.util.regex.Pattern;
 import java.util.stream.Stream;
-import javax.tools.ToolProvider;
 
 /** The run of calls in README.md, copied as a reader would: it answers what stands behind its calls. */
 public final class ReadmeTests {
@@ -31,7 +27,7 @@ public final class ReadmeTests {
             calls.add(call.group(1));
             due.add(call.group(3));
         }
-        String[] got = printedBy(program.group(1)).split("\\R");
+        String[] got = printed(program.group(1)).split("\\R");
         if (calls.isEmpty() || got.length != calls.size()) {
             fail(calls.size() + " calls, " + got.length + " answers");
         }
@@ -53,7 +49,7 @@ public final class ReadmeTests {
         System.exit(1);
     }
 
-    private static String printedBy(String program) throws Exception {
+    private static String printed(String program) throws Exception {
         Path folder = Files.createTempDirectory("readme");
         try {
             return runIn(folder, program);
@@ -64,20 +60,17 @@ public final class ReadmeTests {
 
     private static String runIn(Path folder, String program) throws Exception {
         Path file = Files.writeString(folder.resolve("Example.java"), program);
-        int failed = ToolProvider.getSystemJavaCompiler().run(null, null, null, "-d", folder.toString(),
-            "-cp", System.getProperty("java.class.path"), file.toString());
-        if (failed != 0) {
-            return "";
-        }
-        ByteArrayOutputStream printed = new ByteArrayOutputStream();
-        PrintStream out = System.out;
-        try (URLClassLoader loader = new URLClassLoader(new URL[] {folder.toUri().toURL()})) {
-            System.setOut(new PrintStream(printed, true, StandardCharsets.UTF_8));
-            loader.loadClass("Example").getMethod("main", String[].class).invoke(null, (Object) new String[0]);
-        } finally {
-            System.setOut(out);
-        }
-        return printed.toString(StandardCharsets.UTF_8);
+        String classes = System.getProperty("java.class.path");
+        String told = printedBy("javac", "-d", folder.toString(), "-cp", classes, file.toString());
+        return told + printedBy("java", "-cp", folder + File.pathSeparator + classes, "Example");
+    }
+
+    private static String printedBy(String... command) throws Exception {
+        Process process = new ProcessBuilder(command).redirectError(ProcessBuilder.Redirect.INHERIT).start();
+        process.getOutputStream().close();
+        String printed = new String(process.getInputStream().readAllBytes(), StandardCharsets.UTF_8);
+        process.waitFor();
+        return printed;
     }
 
     private static void remove(Path folder) throws IOException {
